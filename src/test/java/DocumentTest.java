@@ -53,6 +53,11 @@ final class DocumentTest {
             .notify("close", "[\"c\"]").documentsDue(1).wholeDue(0, "b", 2, "22").ignoredDue(0)
             .open("a", 0, "").wholeDue(1, "a", 0, "").notify("close", "[\"b\"]").notify("close", "[\"a\"]")
             .documentsDue(0).ignoredDue(0).responsesDue(1);
+        Session.ready("what was closed is gone").open("a", 1, "xyz").notify("close", "[\"a\"]").textDue(0, 0, OUTSIDE)
+            .nameDue(0, 0, OUTSIDE).documentDue(0, 0, OUTSIDE).placeDue(0, 0, 0, OUTSIDE);
+        Session.ready("each has its own text").open("a", 1, "1").open("b", 1, "2").notify("close", "[\"a\"]")
+            .open("c", 5, "333").wholeDue(0, "b", 1, "2").wholeDue(1, "c", 5, "333")
+            .notify("change", "[\"c\",6,\"4444\"]").wholeDue(0, "b", 1, "2").wholeDue(1, "c", 6, "4444");
         String[] wrong = {"[]", "null", "\"a\"", "[\"b\"]", "[\"a\",1]", "[1]", "[[\"a\"]]", "[\"\"]", "[\"aa\"]",
             "{\"a\":\"a\"}"};
         Session s = Session.ready("close what is not").open("a", 1, "x");

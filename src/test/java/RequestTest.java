@@ -56,6 +56,9 @@ final class RequestTest {
         noCharacter("", "at", "[\"a\",0,0]");
         noCharacter("", "at", "[\"a\",-1,0]");
         noCharacter("a\\n", "at", "[\"a\",1,0]");
+        Session.ready("what was in a text").open("a", 1, "abc").request(1, "length", "[\"a\"]").runDue(0, 1)
+            .notify("change", "[\"a\",2,\"a\"]").request(2, "index", "[\"a\",\"b\"]")
+            .request(3, "at", "[\"a\",0,1]").runDue(0, 2).errorDue(2, -32603).runDue(0, 3).errorDue(3, -32603);
     }
 
     private static void theTextAsItWas() {
@@ -107,6 +110,9 @@ final class RequestTest {
         s.runDue(1, -20).resultDue(-20, 2).requestDue(0, 10).requestDue(1, 30).requestDue(2, 10).waitingDue(3);
         s.runDue(2, 10).resultDue(10, 4).runDue(1, 30).resultDue(30, 3).runDue(0, 10).resultDue(10, 1).waitingDue(0)
             .runDue(0, OUTSIDE).responsesDue(5);
+        Session t = Session.ready("one goes and one comes").open("a", 1, "x").request(1, "length", "[\"a\"]")
+            .request(2, "length", "[\"a\"]").runDue(0, 1).request(3, "at", "[\"a\",0,0]");
+        t.waitingDue(2).requestDue(0, 2).requestDue(1, 3).runDue(0, 2).resultDue(2, 1).runDue(0, 3).resultDue(3, 'x');
     }
 
     private static void cancels() {
