@@ -1,157 +1,184 @@
-/** Promises 11 to 16: documents and the notifications that they follow. */
+/** The limits of DOCUMENTS, and promises 12 to 15; each method quotes the sentence it holds the program to. */
 final class DocumentTest {
-    private static final Class<?> OUTSIDE = IndexOutOfBoundsException.class;
-    private static final Class<?> NO_SUCH = IllegalArgumentException.class;
-    private static final String SIXTY = "x".repeat(60);
+    private static final String SIXTY = "0123456789".repeat(6);
 
     public static void main(String[] args) {
-        opens();
-        opensThatCannotBe();
-        closes();
-        changes();
-        changesThatCannotBe();
-        editsBetweenPositions();
-        places();
-        otherNotifications();
-        wrongIndexes();
+        atMostThree();
+        inTheOrderTheyWereOpened();
+        nameOfOneToFour();
+        versionIsANumber();
+        textOfAtMostSixtyWhenOpened();
+        textOfAtMostSixtyWhenReplaced();
+        textOfAtMostSixtyWhenEdited();
+        howManyLines();
+        partsOfADocument();
+        noSuchDocument();
+        noSuchWhat();
+        noSuchCharacterOfText();
+        noSuchCharacterOfName();
         Session.end();
     }
 
-    private static void opens() {
-        Session.ready("open").open("abcd", -5, "q\\n\\\"\\\\~").documentsDue(1).wholeDue(0, "abcd", -5, "q\n\"\\~")
-            .open("b", 0, "").wholeDue(1, "b", 0, "").documentsDue(2).ignoredDue(0).responsesDue(1);
-        Session.ready("a text of 60").open("a", 1, SIXTY).wholeDue(0, "a", 1, SIXTY);
-        Session.ready("60 line ends").open("a", 1, "\\n".repeat(60)).documentDue(0, 1, 60).documentDue(0, 3, 61);
-        Session.ready("a name of escapes").open("\\n\\\"\\\\ ", 1, "").wholeDue(0, "\n\"\\ ", 1, "");
-    }
-
-    private static void opensThatCannotBe() {
-        String[] wrong = {"[]", "null", "{}", "\"a\"", "1", "[\"a\"]", "[\"a\",1]", "[\"a\",1,\"\",1]",
-            "[\"a\",\"1\",\"\"]", "[1,1,\"\"]", "[\"a\",1,1]", "[\"a\",1,null]", "[\"a\",null,\"\"]",
-            "[[\"a\"],1,\"\"]", "{\"a\":\"a\",\"b\":1,\"c\":\"\"}", "[\"\",1,\"\"]", "[\"abcde\",1,\"\"]",
-            "[\"a\",1,\"" + SIXTY + "x\"]", "[\"a\",1,\"" + SIXTY + "\\n\"]"};
-        for (String params : wrong) {
-            Session.ready("open " + params).notify("open", params).documentsDue(0).ignoredDue(1).responsesDue(1);
+    /** "DOCUMENTS, at most 3" */
+    private static void atMostThree() {
+        Session s = Session.ready("at most three").documentsDue(0).open("a", 1, "").documentsDue(1).open("b", 1, "")
+            .documentsDue(2).open("c", 1, "").documentsDue(3).ignoredDue(0).open("d", 1, "").documentsDue(3).ignoredDue(1)
+            .documentDue(3, 0, Session.OUTSIDE);
+        s.notify("close", "['b']").documentsDue(2).open("d", 4, "z").documentsDue(3).ignoredDue(1).open("e", 1, "")
+            .documentsDue(3).ignoredDue(2).wholeDue(2, "d", 4, "z");
+        Session t = Session.ready("three at once, not in all");
+        for (int i = 0; i < 8; i++) {
+            t.open("a", i, "x").documentsDue(1).notify("close", "['a']").documentsDue(0);
         }
-        Session.ready("no params").send("{\"method\":\"open\"}").documentsDue(0).ignoredDue(1);
-        Session.ready("open again").open("a", 1, "x").open("a", 2, "y").documentsDue(1).ignoredDue(1)
-            .wholeDue(0, "a", 1, "x");
-        Session.ready("three are open").open("a", 1, "").open("b", 1, "").open("c", 1, "").documentsDue(3)
-            .open("d", 1, "").documentsDue(3).ignoredDue(1).notify("close", "[\"b\"]").open("d", 4, "z")
-            .documentsDue(3).ignoredDue(1).nameDue(0, 0, 'a').nameDue(1, 0, 'c').wholeDue(2, "d", 4, "z");
-        Session.ready("a failed open leaves nothing").open("a", 1, SIXTY + "x").open("a", 2, "y")
-            .wholeDue(0, "a", 2, "y").ignoredDue(1);
-        Session.ready("names by all their characters").open("ab", 1, "").open("a", 1, "").open("b", 1, "")
-            .documentsDue(3);
-        Session.ready("names differ in case and order").open("ab", 1, "").open("ba", 1, "").open("aB", 1, "")
-            .documentsDue(3).ignoredDue(0);
+        t.ignoredDue(0);
     }
 
-    private static void closes() {
-        Session.ready("close").open("a", 1, "1").open("b", 2, "22").open("c", 3, "333").notify("close", "[\"a\"]")
-            .documentsDue(2).wholeDue(0, "b", 2, "22").wholeDue(1, "c", 3, "333").documentDue(2, 0, OUTSIDE)
-            .notify("close", "[\"c\"]").documentsDue(1).wholeDue(0, "b", 2, "22").ignoredDue(0)
-            .open("a", 0, "").wholeDue(1, "a", 0, "").notify("close", "[\"b\"]").notify("close", "[\"a\"]")
-            .documentsDue(0).ignoredDue(0).responsesDue(1);
-        Session.ready("what was closed is gone").open("a", 1, "xyz").notify("close", "[\"a\"]").textDue(0, 0, OUTSIDE)
-            .nameDue(0, 0, OUTSIDE).documentDue(0, 0, OUTSIDE).placeDue(0, 0, 0, OUTSIDE);
-        Session.ready("each has its own text").open("a", 1, "1").open("b", 1, "2").notify("close", "[\"a\"]")
-            .open("c", 5, "333").wholeDue(0, "b", 1, "2").wholeDue(1, "c", 5, "333")
-            .notify("change", "[\"c\",6,\"4444\"]").wholeDue(0, "b", 1, "2").wholeDue(1, "c", 6, "4444");
-        String[] wrong = {"[]", "null", "\"a\"", "[\"b\"]", "[\"a\",1]", "[1]", "[[\"a\"]]", "[\"\"]", "[\"aa\"]",
-            "{\"a\":\"a\"}"};
-        Session s = Session.ready("close what is not").open("a", 1, "x");
-        for (int i = 0; i < wrong.length; i++) {
-            s.notify("close", wrong[i]).documentsDue(1).ignoredDue(i + 1);
+    /** "document d (from 0, in the order in which they were opened)" */
+    private static void inTheOrderTheyWereOpened() {
+        Session s = Session.ready("order").open("c", 1, "1").open("a", 2, "22").open("b", 3, "333").wholeDue(0, "c", 1, "1")
+            .wholeDue(1, "a", 2, "22").wholeDue(2, "b", 3, "333");
+        s.notify("change", "['c',9,'4444']").wholeDue(0, "c", 9, "4444");
+        s.notify("close", "['c']").wholeDue(0, "a", 2, "22").wholeDue(1, "b", 3, "333").documentDue(2, 0, Session.OUTSIDE);
+        s.open("c", 5, "5").wholeDue(0, "a", 2, "22").wholeDue(1, "b", 3, "333").wholeDue(2, "c", 5, "5");
+        s.notify("close", "['b']").wholeDue(0, "a", 2, "22").wholeDue(1, "c", 5, "5").documentsDue(2);
+    }
+
+    /** "a NAME (1 to 4 characters)" */
+    private static void nameOfOneToFour() {
+        String name = "abcdefgh";
+        for (int size = 0; size <= 8; size++) {
+            boolean fits = size >= 1 && size <= 4;
+            Session s = Session.ready("a name of " + size).open(name.substring(0, size), 1, "x")
+                .documentsDue(fits ? 1 : 0).ignoredDue(fits ? 0 : 1).responsesDue(1);
+            if (fits) {
+                s.wholeDue(0, name.substring(0, size), 1, "x");
+            }
+        }
+        Session.ready("four that are written longer").open("\\n\\\"\\\\\\n", 1, "").wholeDue(0, "\n\"\\\n", 1, "");
+        Session.ready("five that are written longer").open("\\n\\\"\\\\\\n\\n", 1, "").documentsDue(0).ignoredDue(1);
+        Session.ready("a blank, a tilde").open(" ", 1, "").open("~", 1, "").wholeDue(0, " ", 1, "").wholeDue(1, "~", 1, "");
+    }
+
+    /** "a VERSION, a number" */
+    private static void versionIsANumber() {
+        for (int version : new int[] {-999999, -1, 0, 1, 999999}) {
+            Session.ready("version " + version).open("a", version, "x").wholeDue(0, "a", version, "x").ignoredDue(0);
         }
     }
 
-    private static void changes() {
-        Session s = Session.ready("change").open("a", 1, "one").open("b", 1, "two");
-        s.notify("change", "[\"b\",2,\"three\"]").wholeDue(1, "b", 2, "three").wholeDue(0, "a", 1, "one");
-        s.notify("change", "[\"a\",999999]").wholeDue(0, "a", 999999, "one");
-        s.notify("change", "[\"b\",3,\"ab\",[0,1,0,1,\"-\"],[0,9,0,9,\"!\"]]").wholeDue(1, "b", 3, "a-b!");
-        s.notify("change", "[\"b\",4,[0,0,9,9,\"z\"],\"y\",\"\"]").wholeDue(1, "b", 4, "").ignoredDue(0);
-        Session.ready("negative versions").open("a", -10, "").notify("change", "[\"a\",-9,\"x\"]")
-            .wholeDue(0, "a", -9, "x").ignoredDue(0);
-        Session.ready("up to 60").open("a", 1, "x".repeat(59)).notify("change", "[\"a\",2,[0,0,0,0,\"x\"]]")
-            .wholeDue(0, "a", 2, SIXTY).notify("change", "[\"a\",3,[0,10,0,20,\"0123456789\"]]")
-            .wholeDue(0, "a", 3, "x".repeat(10) + "0123456789" + "x".repeat(40)).ignoredDue(0);
-    }
-
-    private static void changesThatCannotBe() {
-        String[] wrong = {"[]", "null", "\"a\"", "[\"a\"]", "[\"a\",\"3\"]", "[3,\"a\"]", "[\"b\",3]", "[\"a\",1,\"q\"]",
-            "[\"a\",2,\"q\"]", "[\"a\",-3]", "[\"a\",3,1]", "[\"a\",3,null]", "[\"a\",3,\"q\",null]", "[\"a\",3,[]]",
-            "[\"a\",3,{}]", "[\"a\",3,[0,0,0,0]]", "[\"a\",3,[0,0,0,0,\"q\",1]]", "[\"a\",3,[0,0,0,0,1]]",
-            "[\"a\",3,[\"0\",0,0,0,\"q\"]]", "[\"a\",3,[0,0,0,null,\"q\"]]", "[\"a\",3,[0,0,\"q\"]]",
-            "[\"a\",3,[[0,0,0,0,\"q\"]]]", "[\"a\",3,\"" + SIXTY + "x\"]", "[\"a\",3,\"" + SIXTY + "x\",\"\"]",
-            "[\"a\",3,[0,0,0,0,\"" + "x".repeat(58) + "\"]]", "[\"a\",3,\"q\",[0,0,0,0,\"" + SIXTY + "\"],\"\"]",
-            "{\"a\":\"a\",\"b\":3}", "[\"a\",3,true]"};
-        for (String params : wrong) {
-            Session.ready("change " + params).open("a", 2, "one").notify("change", params).wholeDue(0, "a", 2, "one")
-                .ignoredDue(1).responsesDue(1);
+    /** "a TEXT of at most 60 characters 32 .. 126 and 10" */
+    private static void textOfAtMostSixtyWhenOpened() {
+        for (int size : new int[] {0, 1, 59, 60}) {
+            Session.withText("a text of " + size, SIXTY.substring(0, size))
+                .wholeDue(0, "a", 1, SIXTY.substring(0, size)).ignoredDue(0);
         }
-        Session.ready("nothing is left of a bad change").open("a", 1, "one").notify("change", "[\"a\",2,\"q\",1]")
-            .notify("change", "[\"a\",2,[0,3,0,3,\"!\"]]").wholeDue(0, "a", 2, "one!").ignoredDue(1);
-    }
-
-    private static void edit(String text, String edit, String after) {
-        Session.ready("edit " + text + " " + edit).open("a", 1, text.replace("\n", "\\n"))
-            .notify("change", "[\"a\",2," + edit + "]").wholeDue(0, "a", 2, after).ignoredDue(0);
-    }
-
-    private static void editsBetweenPositions() {
-        edit("abcdef", "[0,2,0,4,\"\"]", "abef");
-        edit("abcdef", "[0,4,0,2,\"XYZ\"]", "abXYZef");
-        edit("abcdef", "[0,3,0,3,\"-\"]", "abc-def");
-        edit("ab\ncd\nef", "[0,1,2,1,\"-\"]", "a-f");
-        edit("ab\ncd\nef", "[2,1,0,1,\"-\"]", "a-f");
-        edit("ab\ncd\nef", "[0,2,1,0,\"\"]", "abcd\nef");
-        edit("ab\ncd", "[0,99,0,99,\"\\n\"]", "ab\n\ncd");
-        edit("ab\ncd", "[9,0,9,9,\"!\"]", "ab\ncd!");
-        edit("ab\ncd", "[-1,7,0,1,\"!\"]", "!b\ncd");
-        edit("ab\ncd", "[1,-1,1,1,\"!\"]", "ab\n!d");
-        edit("a~b", "[0,1,0,2,\"!\"]", "a!~b");
-        edit("a~b", "[0,1,0,3,\"!\"]", "a!b");
-        edit("", "[0,0,5,5,\"\\\"\\\\\"]", "\"\\");
-        edit("abc", "[0,0,0,3,\"\"]", "");
-        edit("abc", "[0,3,0,3,\"\\n\"],[1,0,1,0,\"d\"]", "abc\nd");
-        edit("abc", "\"x\\ny\",[1,0,1,1,\"z\"]", "x\nz");
-    }
-
-    private static void places() {
-        Session s = Session.ready("places").open("a", 1, "a~b\\n\\n~~\\nxyz").open("b", 1, "").open("c", 1, "q\\n");
-        int[][] due = {{0, 0, 0}, {0, 1, 1}, {0, 2, 1}, {0, 3, 2}, {0, 4, 3}, {0, 5, 3}, {0, Integer.MAX_VALUE, 3},
-            {0, -1, 0}, {0, Integer.MIN_VALUE, 0}, {1, 0, 4}, {1, 1, 4}, {1, -3, 4}, {2, 0, 5}, {2, 1, 5}, {2, 2, 6},
-            {2, 3, 6}, {2, 4, 7}, {2, 9, 7}, {2, -1, 5}, {3, 0, 8}, {3, 2, 10}, {3, 3, 11}, {3, 4, 11}, {4, 0, 11},
-            {4, -1, 11}, {Integer.MAX_VALUE, 0, 11}, {-1, 5, 0}, {-1, 0, 0},
-            {Integer.MIN_VALUE, Integer.MAX_VALUE, 0}};
-        for (int[] row : due) {
-            s.placeDue(0, row[0], row[1], row[2]);
+        for (int size : new int[] {61, 62, 120}) {
+            Session.withText("a text of " + size, "x".repeat(size)).documentsDue(0).ignoredDue(1).open("a", 2, "y")
+                .wholeDue(0, "a", 2, "y");
         }
-        s.placeDue(1, 0, 0, 0).placeDue(1, 0, 5, 0).placeDue(1, 1, 0, 0).placeDue(1, -1, 0, 0);
-        s.placeDue(2, 0, 1, 1).placeDue(2, 0, 2, 1).placeDue(2, 1, 0, 2).placeDue(2, 1, 5, 2).placeDue(2, 2, 0, 2);
-        s.documentDue(0, 3, 4).documentDue(1, 3, 1).documentDue(2, 3, 2);
-        s.placeDue(3, 0, 0, OUTSIDE).placeDue(-1, 0, 0, OUTSIDE);
+        Session.withText("60 line ends", "\\n".repeat(60)).documentDue(0, 1, 60).documentDue(0, 3, 61).ignoredDue(0);
+        Session.withText("61 line ends", "\\n".repeat(61)).documentsDue(0).ignoredDue(1);
+        Session.withText("60 tildes, which are wide", "~".repeat(60)).documentDue(0, 1, 60).ignoredDue(0);
+        Session.withText("the first and the last", " ~\\n").wholeDue(0, "a", 1, " ~\n");
     }
 
-    private static void otherNotifications() {
-        Session s = Session.ready("others");
-        String[] others = {"initialize", "shutdown", "length", "index", "at", "lines", "x", "", "Open", "opens", "exi"};
-        for (int i = 0; i < others.length; i++) {
-            s.notify(others[i], "[\"a\"]").ignoredDue(i + 1);
+    /** "If .. a text would be too long, nothing of it is done.": the whole new text. */
+    private static void textOfAtMostSixtyWhenReplaced() {
+        for (int size : new int[] {0, 1, 59, 60}) {
+            Session.withText("a new text of " + size, "one").notify("change", "['a',2,'" + "x".repeat(size) + "']")
+                .wholeDue(0, "a", 2, "x".repeat(size)).ignoredDue(0);
         }
-        s.stateDue(1).responsesDue(1).waitingDue(0);
+        for (int size : new int[] {61, 100}) {
+            Session.withText("a new text of " + size, "one").notify("change", "['a',2,'" + "x".repeat(size) + "']")
+                .wholeDue(0, "a", 1, "one").ignoredDue(1);
+        }
+        Session.withText("60 for 60", SIXTY).notify("change", "['a',2,'" + "x".repeat(60) + "']")
+            .wholeDue(0, "a", 2, "x".repeat(60)).ignoredDue(0);
     }
 
-    private static void wrongIndexes() {
-        Session s = Session.ready("indexes").open("ab", 7, "xyz");
-        s.documentDue(0, 4, NO_SUCH).documentDue(0, -1, NO_SUCH).documentDue(0, Integer.MAX_VALUE, NO_SUCH);
-        s.documentDue(1, 0, OUTSIDE).documentDue(1, 4, OUTSIDE).documentDue(-1, -1, OUTSIDE);
-        s.documentDue(Integer.MIN_VALUE, 0, OUTSIDE).documentDue(3, 0, OUTSIDE);
-        s.textDue(1, 0, OUTSIDE).textDue(-1, 0, OUTSIDE).textDue(0, 60, OUTSIDE);
-        s.textDue(0, Integer.MIN_VALUE, OUTSIDE).textDue(0, Integer.MAX_VALUE, OUTSIDE);
-        s.nameDue(1, 0, OUTSIDE).nameDue(-1, 0, OUTSIDE).nameDue(0, 4, OUTSIDE);
-        s.nameDue(0, Integer.MIN_VALUE, OUTSIDE).wholeDue(0, "ab", 7, "xyz");
+    /** The same sentence: what lies between two positions. */
+    private static void textOfAtMostSixtyWhenEdited() {
+        String half = SIXTY.substring(0, 30);
+        edited("30 and 30", half, "[0,30,0,30,'" + half + "']", half + half);
+        edited("30 and 31", half, "[0,30,0,30,'" + half + "x']", null);
+        edited("60 and none", SIXTY, "[0,5,0,5,'']", SIXTY);
+        edited("60 and one", SIXTY, "[0,5,0,5,'x']", null);
+        edited("60, ten for ten", SIXTY, "[0,10,0,20,'abcdefghij']", half.substring(20) + "abcdefghij" + SIXTY.substring(20));
+        edited("60, eleven for ten", SIXTY, "[0,10,0,20,'abcdefghijk']", null);
+        edited("60, all for 60", SIXTY, "[0,0,1,0,'" + "x".repeat(60) + "']", "x".repeat(60));
+        edited("60, all for 61", SIXTY, "[0,0,1,0,'" + "x".repeat(61) + "']", null);
+        edited("61 between two edits", half, "[0,0,0,0,'" + half + "x'],[0,0,0,1,'']", null);
+        edited("61 before the whole text", half, "[0,0,0,0,'" + half + "x'],'y'", null);
+        edited("61 whole before an edit", half, "'" + SIXTY + "x',[0,0,0,1,'']", null);
+        edited("60 between two edits", half, "[0,0,0,0,'" + half + "'],[0,1,0,60,'']", "0");
+    }
+
+    private static void edited(String title, String text, String edits, String after) {
+        Session.withText(title, text).notify("change", "['a',2," + edits + "]")
+            .wholeDue(0, "a", after == null ? 1 : 2, after == null ? text : after).ignoredDue(after == null ? 1 : 0);
+    }
+
+    /** "Its LINES end with character 10 (the last one with the text)." */
+    private static void howManyLines() {
+        String[] texts = {"", "a", "\\n", "a\\n", "\\na", "a\\nb", "\\n\\n", "a\\n\\nb", "a\\nb\\n", "\\\\n", "nnn"};
+        int[] lines = {1, 1, 2, 2, 2, 2, 3, 3, 3, 1, 1};
+        for (int i = 0; i < texts.length; i++) {
+            Session.withText("lines of " + texts[i], texts[i]).documentDue(0, 3, lines[i]);
+        }
+    }
+
+    /** "its version (what = 0), the length of its text (1), of its name (2), how many lines (3)" */
+    private static void partsOfADocument() {
+        Session.ready("parts").open("abc", 77, "x\\ny\\nzzzz").documentDue(0, 0, 77).documentDue(0, 1, 8)
+            .documentDue(0, 2, 3).documentDue(0, 3, 3);
+    }
+
+    /** "IndexOutOfBoundsException if there is none" */
+    private static void noSuchDocument() {
+        Session.ready("no document").documentDue(0, 0, Session.OUTSIDE).textDue(0, 0, Session.OUTSIDE)
+            .nameDue(0, 0, Session.OUTSIDE);
+        for (int open = 1; open <= 3; open++) {
+            Session s = Session.ready(open + " documents");
+            for (int i = 0; i < open; i++) {
+                s.open("abc".substring(i, i + 1), i, "xyz");
+            }
+            s.documentDue(open - 1, 0, open - 1).textDue(open - 1, 0, 'x').nameDue(open - 1, 0, "abc".charAt(open - 1));
+            for (int d : new int[] {-1, open, 3, 4, Integer.MIN_VALUE, Integer.MAX_VALUE}) {
+                s.documentDue(d, 0, Session.OUTSIDE).documentDue(d, 3, Session.OUTSIDE).textDue(d, 0, Session.OUTSIDE)
+                    .nameDue(d, 0, Session.OUTSIDE);
+            }
+        }
+        Session.withText("closed", "xyz").notify("close", "['a']").documentDue(0, 0, Session.OUTSIDE)
+            .textDue(0, 0, Session.OUTSIDE).nameDue(0, 0, Session.OUTSIDE);
+    }
+
+    /** "IllegalArgumentException if there is no such what"; the index is looked at first, as it is told first. */
+    private static void noSuchWhat() {
+        Session s = Session.withText("what", "xyz").documentDue(0, 0, 1).documentDue(0, 3, 1);
+        for (int what : new int[] {-1, 4, Integer.MIN_VALUE, Integer.MAX_VALUE}) {
+            s.documentDue(0, what, Session.NO_SUCH).documentDue(1, what, Session.OUTSIDE)
+                .documentDue(-1, what, Session.OUTSIDE);
+        }
+        s.wholeDue(0, "a", 1, "xyz");
+    }
+
+    /** "Character i of the text of document d. IndexOutOfBoundsException if there is none." */
+    private static void noSuchCharacterOfText() {
+        Session s = Session.withText("characters of the text", "xyz").textDue(0, 0, 'x').textDue(0, 2, 'z');
+        for (int i : new int[] {-1, 3, 59, 60, 61, Integer.MIN_VALUE, Integer.MAX_VALUE}) {
+            s.textDue(0, i, Session.OUTSIDE);
+        }
+        s.notify("change", "['a',2,'x']").textDue(0, 0, 'x').textDue(0, 1, Session.OUTSIDE).notify("change", "['a',3,'']")
+            .textDue(0, 0, Session.OUTSIDE).textDue(0, -1, Session.OUTSIDE);
+        Session.withText("characters of 60", SIXTY).textDue(0, 59, '9').textDue(0, 60, Session.OUTSIDE);
+    }
+
+    /** "Character i of the name of document d. IndexOutOfBoundsException if there is none." */
+    private static void noSuchCharacterOfName() {
+        Session s = Session.ready("characters of the name").open("abcd", 1, "").nameDue(0, 0, 'a').nameDue(0, 3, 'd');
+        for (int i : new int[] {-1, 4, 5, Integer.MIN_VALUE, Integer.MAX_VALUE}) {
+            s.nameDue(0, i, Session.OUTSIDE);
+        }
+        s.notify("close", "['abcd']").open("e", 1, "").nameDue(0, 0, 'e').nameDue(0, 1, Session.OUTSIDE);
     }
 }

@@ -1,7 +1,15 @@
 import java.util.function.Supplier;
 
-/** A server under test, and a count of the answers that were not the ones due. */
+/**
+ * A server under test, and a count of the answers that were not the ones due.
+ *
+ * Where a method writes a message (say, request, notify), ' stands for " to keep the tests readable.
+ */
 final class Session {
+    static final Class<?> OUTSIDE = IndexOutOfBoundsException.class;
+    static final Class<?> NO_SUCH = IllegalArgumentException.class;
+    static final int[] FAR = {Integer.MIN_VALUE, Integer.MAX_VALUE};
+
     private static final int MAX_CALLS = 512;
     private static int checks = 0;
     private static int wrong = 0;
@@ -16,7 +24,7 @@ final class Session {
 
     /** A session that is READY, with one response (to the request 0) given. */
     static Session ready(String title) {
-        return new Session(title).send("{\"id\":0,\"method\":\"initialize\"}");
+        return new Session(title).say("{'id':0,'method':'initialize'}");
     }
 
     /** The document promises nothing beyond 512 calls, so no test may go there. */
@@ -26,6 +34,10 @@ final class Session {
             throw new AssertionError(title + ": more than " + MAX_CALLS + " calls");
         }
         return server;
+    }
+
+    int calls() {
+        return calls;
     }
 
     int input(String characters) {
@@ -45,16 +57,26 @@ final class Session {
         return this;
     }
 
+    Session say(String body) {
+        return send(body.replace('\'', '"'));
+    }
+
     Session request(int id, String method, String params) {
-        return send("{\"id\":" + id + ",\"method\":\"" + method + "\",\"params\":" + params + "}");
+        return say("{'id':" + id + ",'method':'" + method + "','params':" + params + "}");
     }
 
     Session notify(String method, String params) {
-        return send("{\"method\":\"" + method + "\",\"params\":" + params + "}");
+        return say("{'method':'" + method + "','params':" + params + "}");
     }
 
+    /** Name and text stand as in a body: \n is written as two characters. */
     Session open(String name, int version, String text) {
-        return notify("open", "[\"" + name + "\"," + version + ",\"" + text + "\"]");
+        return notify("open", "['" + name + "'," + version + ",'" + text + "']");
+    }
+
+    /** Opens the document a, version 1. */
+    static Session withText(String title, String text) {
+        return ready(title).open("a", 1, text);
     }
 
     Session due(String call, Supplier<Object> answer, Object want) {
@@ -156,10 +178,10 @@ final class Session {
         for (int i = 0; i < text.length(); i++) {
             textDue(d, i, text.charAt(i));
         }
-        nameDue(d, -1, IndexOutOfBoundsException.class);
-        nameDue(d, name.length(), IndexOutOfBoundsException.class);
-        textDue(d, -1, IndexOutOfBoundsException.class);
-        return textDue(d, text.length(), IndexOutOfBoundsException.class);
+        nameDue(d, -1, OUTSIDE);
+        nameDue(d, name.length(), OUTSIDE);
+        textDue(d, -1, OUTSIDE);
+        return textDue(d, text.length(), OUTSIDE);
     }
 
     Session textDue(int d, int i, Object want) {
