@@ -22,8 +22,8 @@ final class DocumentTest {
     /** "DOCUMENTS, at most 3" */
     private static void atMostThree() {
         Session s = Session.ready("at most three").documentsDue(0).open("a", 1, "").documentsDue(1).open("b", 1, "")
-            .documentsDue(2).open("c", 1, "").documentsDue(3).ignoredDue(0).open("d", 1, "").documentsDue(3).ignoredDue(1)
-            .documentDue(3, 0, Session.OUTSIDE);
+            .documentsDue(2).open("c", 1, "").documentsDue(3).ignoredDue(0).open("d", 1, "").documentsDue(3)
+            .ignoredDue(1).documentDue(3, 0, Session.OUTSIDE);
         s.notify("close", "['b']").documentsDue(2).open("d", 4, "z").documentsDue(3).ignoredDue(1).open("e", 1, "")
             .documentsDue(3).ignoredDue(2).wholeDue(2, "d", 4, "z");
         Session t = Session.ready("three at once, not in all");
@@ -35,10 +35,11 @@ final class DocumentTest {
 
     /** "document d (from 0, in the order in which they were opened)" */
     private static void inTheOrderTheyWereOpened() {
-        Session s = Session.ready("order").open("c", 1, "1").open("a", 2, "22").open("b", 3, "333").wholeDue(0, "c", 1, "1")
-            .wholeDue(1, "a", 2, "22").wholeDue(2, "b", 3, "333");
+        Session s = Session.ready("order").open("c", 1, "1").open("a", 2, "22").open("b", 3, "333")
+            .wholeDue(0, "c", 1, "1").wholeDue(1, "a", 2, "22").wholeDue(2, "b", 3, "333");
         s.notify("change", "['c',9,'4444']").wholeDue(0, "c", 9, "4444");
-        s.notify("close", "['c']").wholeDue(0, "a", 2, "22").wholeDue(1, "b", 3, "333").documentDue(2, 0, Session.OUTSIDE);
+        s.notify("close", "['c']").wholeDue(0, "a", 2, "22").wholeDue(1, "b", 3, "333")
+            .documentDue(2, 0, Session.OUTSIDE);
         s.open("c", 5, "5").wholeDue(0, "a", 2, "22").wholeDue(1, "b", 3, "333").wholeDue(2, "c", 5, "5");
         s.notify("close", "['b']").wholeDue(0, "a", 2, "22").wholeDue(1, "c", 5, "5").documentsDue(2);
     }
@@ -56,7 +57,8 @@ final class DocumentTest {
         }
         Session.ready("four that are written longer").open("\\n\\\"\\\\\\n", 1, "").wholeDue(0, "\n\"\\\n", 1, "");
         Session.ready("five that are written longer").open("\\n\\\"\\\\\\n\\n", 1, "").documentsDue(0).ignoredDue(1);
-        Session.ready("a blank, a tilde").open(" ", 1, "").open("~", 1, "").wholeDue(0, " ", 1, "").wholeDue(1, "~", 1, "");
+        Session.ready("a blank, a tilde").open(" ", 1, "").open("~", 1, "").wholeDue(0, " ", 1, "")
+            .wholeDue(1, "~", 1, "");
     }
 
     /** "a VERSION, a number" */
@@ -103,7 +105,8 @@ final class DocumentTest {
         edited("30 and 31", half, "[0,30,0,30,'" + half + "x']", null);
         edited("60 and none", SIXTY, "[0,5,0,5,'']", SIXTY);
         edited("60 and one", SIXTY, "[0,5,0,5,'x']", null);
-        edited("60, ten for ten", SIXTY, "[0,10,0,20,'abcdefghij']", half.substring(20) + "abcdefghij" + SIXTY.substring(20));
+        edited("60, ten for ten", SIXTY, "[0,10,0,20,'abcdefghij']",
+            half.substring(20) + "abcdefghij" + SIXTY.substring(20));
         edited("60, eleven for ten", SIXTY, "[0,10,0,20,'abcdefghijk']", null);
         edited("60, all for 60", SIXTY, "[0,0,1,0,'" + "x".repeat(60) + "']", "x".repeat(60));
         edited("60, all for 61", SIXTY, "[0,0,1,0,'" + "x".repeat(61) + "']", null);
@@ -168,8 +171,8 @@ final class DocumentTest {
         for (int i : new int[] {-1, 3, 59, 60, 61, Integer.MIN_VALUE, Integer.MAX_VALUE}) {
             s.textDue(0, i, Session.OUTSIDE);
         }
-        s.notify("change", "['a',2,'x']").textDue(0, 0, 'x').textDue(0, 1, Session.OUTSIDE).notify("change", "['a',3,'']")
-            .textDue(0, 0, Session.OUTSIDE).textDue(0, -1, Session.OUTSIDE);
+        s.notify("change", "['a',2,'x']").textDue(0, 0, 'x').textDue(0, 1, Session.OUTSIDE)
+            .notify("change", "['a',3,'']").textDue(0, 0, Session.OUTSIDE).textDue(0, -1, Session.OUTSIDE);
         Session.withText("characters of 60", SIXTY).textDue(0, 59, '9').textDue(0, 60, Session.OUTSIDE);
     }
 

@@ -98,7 +98,8 @@ final class FrameTest {
     }
 
     private static void wrongFrom(String title, String before, String then, boolean wrong) {
-        Session s = new Session(title).feedDue(before, 0).stateDue(0).feedDue(then, 0).stateDue(wrong ? 4 : 0).codeDue(-1);
+        Session s = new Session(title).feedDue(before, 0).stateDue(0).feedDue(then, 0).stateDue(wrong ? 4 : 0)
+            .codeDue(-1);
         if (wrong) {
             s.feedDue("1:1", 0).responsesDue(0).stateDue(4);
         }
@@ -141,7 +142,8 @@ final class FrameTest {
             .feedDue("1:1", 1).responsesDue(1);
         new Session("a blank behind a frame").feedDue("1:1 ", 1).stateDue(4);
         new Session("a colon behind a frame").feedDue("1:1:", 1).stateDue(4).responsesDue(1);
-        new Session("a fourth digit in the second header").feedDue("001:1001", 1).stateDue(0).feedDue("0", 1).stateDue(4);
+        new Session("a fourth digit in the second header").feedDue("001:1001", 1).stateDue(0).feedDue("0", 1)
+            .stateDue(4);
         new Session("a wrong header within a call").feedDue("1:1x", 1).stateDue(4).responsesDue(1);
         new Session("digits of the header before are gone").feedDue("20:" + " ".repeat(19) + "1", 1).feedDue("1:1", 2)
             .stateDue(0).responsesDue(2);

@@ -23,7 +23,8 @@ final class LifeTest {
 
     private static void objectsAreApart() {
         Session told = Session.withText("told", "x").request(1, "length", "['a']").notify("x", "0");
-        new Session("not told").stateDue(0).documentsDue(0).responsesDue(0).waitingDue(0).ignoredDue(0).feedDue("1:1", 1);
+        new Session("not told").stateDue(0).documentsDue(0).responsesDue(0).waitingDue(0).ignoredDue(0)
+            .feedDue("1:1", 1);
         told.stateDue(1).documentsDue(1).waitingDue(1).responsesDue(1).ignoredDue(1);
     }
 
@@ -74,14 +75,15 @@ final class LifeTest {
 
     private static void refusedCallsChangeNothing() {
         Session s = Session.withText("refused calls", "xyz").request(4, "length", "['a']").feedDue("1:", 3);
-        for (int far : Session.FAR) {
+        for (int far : new int[] {Integer.MIN_VALUE, Integer.MAX_VALUE}) {
             s.requestDue(far, Session.OUTSIDE).runDue(far, Session.OUTSIDE).responseDue(far, 0, Session.OUTSIDE)
-                .responseDue(0, far, Session.NO_SUCH).writtenDue(far, 0, Session.OUTSIDE).documentDue(far, 0, Session.OUTSIDE)
-                .documentDue(0, far, Session.NO_SUCH).textDue(far, 0, Session.OUTSIDE).textDue(0, far, Session.OUTSIDE)
-                .nameDue(far, 0, Session.OUTSIDE).nameDue(0, far, Session.OUTSIDE).placeDue(far, 0, 0, Session.OUTSIDE);
+                .responseDue(0, far, Session.NO_SUCH).writtenDue(far, 0, Session.OUTSIDE)
+                .documentDue(far, 0, Session.OUTSIDE).documentDue(0, far, Session.NO_SUCH)
+                .textDue(far, 0, Session.OUTSIDE).textDue(0, far, Session.OUTSIDE).nameDue(far, 0, Session.OUTSIDE)
+                .nameDue(0, far, Session.OUTSIDE).placeDue(far, 0, 0, Session.OUTSIDE);
         }
-        s.stateDue(1).codeDue(-1).waitingDue(1).requestDue(0, 4).responsesDue(1).ignoredDue(0).wholeDue(0, "a", 1, "xyz")
-            .feedDue("1", 4).errorDue(null, -32600).runDue(0, 4).resultDue(4, 3);
+        s.stateDue(1).codeDue(-1).waitingDue(1).requestDue(0, 4).responsesDue(1).ignoredDue(0)
+            .wholeDue(0, "a", 1, "xyz").feedDue("1", 4).errorDue(null, -32600).runDue(0, 4).resultDue(4, 3);
     }
 
     /** What later calls answer is free, but LANGUAGE.md lets none of them throw by itself. */

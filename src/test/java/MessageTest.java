@@ -44,7 +44,8 @@ final class MessageTest {
     private static void methodNoneOrNoString() {
         new Session("no method").say("{}").errorDue(null, -32600).say("{'id':4}").errorDue(4, -32600)
             .say("{'id':0}").errorDue(0, -32600).say("{'id':-999999,'params':[]}").errorDue(-999999, -32600)
-            .say("{'params':1}").errorDue(null, -32600).say("{'id':'4'}").errorDue(null, -32600).responsesDue(6).stateDue(0);
+            .say("{'params':1}").errorDue(null, -32600).say("{'id':'4'}").errorDue(null, -32600).responsesDue(6)
+            .stateDue(0);
         for (String method : NO_STRINGS) {
             new Session("method " + method).say("{'id':3,'method':" + method + "}").errorDue(3, -32600)
                 .say("{'method':" + method + "}").errorDue(null, -32600)
@@ -71,8 +72,10 @@ final class MessageTest {
         new Session("initialize without id").say("{'method':'initialize'}").stateDue(0).responsesDue(0)
             .say("{'method':'initialize','id':0}").stateDue(1).resultDue(0, 0).responsesDue(1);
         Session.ready("shutdown without id").say("{'method':'shutdown'}").stateDue(1).ignoredDue(1).responsesDue(1);
-        Session.ready("open with id").request(0, "open", "['a',1,'']").errorDue(0, -32601).documentsDue(0).ignoredDue(0);
-        Session.withText("length without id", "x").notify("length", "['a']").waitingDue(0).ignoredDue(1).responsesDue(1);
+        Session.ready("open with id").request(0, "open", "['a',1,'']").errorDue(0, -32601).documentsDue(0)
+            .ignoredDue(0);
+        Session.withText("length without id", "x").notify("length", "['a']").waitingDue(0).ignoredDue(1)
+            .responsesDue(1);
     }
 
     private static void anyNumberIsAnId() {

@@ -8,7 +8,8 @@ final class ModelTest {
     private static final String[] METHODS = {"open", "open", "open", "close", "change", "change", "change", "change",
         "cancel", "length", "index", "index", "at", "at", "at", "lines", "initialize", "shutdown", "exit", "x", ""};
     private static final String[] NAMES = {"a", "b", "cd", "efgh", "a", "b", "ijklm", "", "\\n"};
-    private static final String[] PIECES = {"a", "b", "~", "\\n", "\\\"", "\\\\", " ", "xyz", "~~", "\\n\\n", "abcabcab"};
+    private static final String[] PIECES = {"a", "b", "~", "\\n", "\\\"", "\\\\", " ", "xyz", "~~", "\\n\\n",
+        "abcabcab"};
     private static final String SOUP = "[]{},:\"\\ \n0123456789-truefalsnx~\t\u007f\u0001";
 
     private final Random random;
@@ -214,7 +215,8 @@ final class ModelTest {
                 return;
             case 3:
                 int k = index(model.asks.size());
-                same("request(" + k + ")", () -> server.request(k), () -> within(k, model.asks.size(), () -> model.asks.get(k).id()));
+                same("request(" + k + ")", () -> server.request(k), () -> within(k, model.asks.size(),
+                    () -> model.asks.get(k).id()));
                 return;
             case 4:
                 int r = index(model.asks.size());

@@ -26,15 +26,15 @@ final class NotificationTest {
     /** Each of them is counted, and does nothing to the document a of that text. */
     private static void ignored(String method, String text, String... params) {
         for (String wrong : params) {
-            Session.withText(method + " " + wrong, text).ignoredDue(0).notify(method, wrong).ignoredDue(1).documentsDue(1)
-                .wholeDue(0, "a", 1, text).responsesDue(1).stateDue(1);
+            Session.withText(method + " " + wrong, text).ignoredDue(0).notify(method, wrong).ignoredDue(1)
+                .documentsDue(1).wholeDue(0, "a", 1, text).responsesDue(1).stateDue(1);
         }
     }
 
     /** "otherwise (also another method) .. they are IGNORED, and counted" */
     private static void anotherMethod() {
-        for (String method : new String[] {"x", "", "Open", "opens", "ope", "closed", "clos", "changes", "chang", "cancels",
-            "cance", "open ", "initialize", "shutdown", "length", "index", "at", "lines"}) {
+        for (String method : new String[] {"x", "", "Open", "opens", "ope", "closed", "clos", "changes", "chang",
+            "cancels", "cance", "open ", "initialize", "shutdown", "length", "index", "at", "lines"}) {
             ignored(method, "one", "['a']", "['a',2,'x']", "[]");
         }
     }
@@ -49,10 +49,10 @@ final class NotificationTest {
 
     /** "open [name, version, text]" */
     private static void openWithOtherParameters() {
-        ignored("open", "one", "[]", "null", "{}", "'b'", "1", "true", "['b']", "['b',1]", "['b',1,'',1]", "['b',1,'','']",
-            "['b','1','']", "[1,1,'']", "['b',1,1]", "['b',1,null]", "['b',null,'']", "[null,1,'']", "[['b'],1,'']",
-            "['b',[1],'']", "['b',1,['']]", "[['b',1,'']]", "['b','',1]", "{'a':'b','b':1,'c':''}", "['',1,'']",
-            "['bcdef',1,'']", "['b',true,'']", "['b',1,{}]");
+        ignored("open", "one", "[]", "null", "{}", "'b'", "1", "true", "['b']", "['b',1]", "['b',1,'',1]",
+            "['b',1,'','']", "['b','1','']", "[1,1,'']", "['b',1,1]", "['b',1,null]", "['b',null,'']", "[null,1,'']",
+            "[['b'],1,'']", "['b',[1],'']", "['b',1,['']]", "[['b',1,'']]", "['b','',1]", "{'a':'b','b':1,'c':''}",
+            "['',1,'']", "['bcdef',1,'']", "['b',true,'']", "['b',1,{}]");
         Session.ready("no params").say("{'method':'open'}").documentsDue(0).ignoredDue(1);
     }
 
@@ -81,8 +81,8 @@ final class NotificationTest {
         String tooLong = "x".repeat(61);
         Session.ready("a good name, a bad text").open("ab", 7, tooLong).documentsDue(0).ignoredDue(1)
             .documentDue(0, 0, Session.OUTSIDE).open("ab", 1, "y").wholeDue(0, "ab", 1, "y");
-        Session.ready("a bad name, a good text").open("abcde", 7, "one").documentsDue(0).ignoredDue(1).open("", 7, "one")
-            .documentsDue(0).ignoredDue(2).open("ab", 1, "y").wholeDue(0, "ab", 1, "y");
+        Session.ready("a bad name, a good text").open("abcde", 7, "one").documentsDue(0).ignoredDue(1)
+            .open("", 7, "one").documentsDue(0).ignoredDue(2).open("ab", 1, "y").wholeDue(0, "ab", 1, "y");
         Session.ready("both bad").open("abcde", 7, tooLong).documentsDue(0).ignoredDue(1);
     }
 
@@ -98,8 +98,8 @@ final class NotificationTest {
     }
 
     private static void closeWithOtherParameters() {
-        ignored("close", "one", "[]", "null", "'a'", "['b']", "['a',1]", "['a','a']", "[1]", "[null]", "[['a']]", "['']",
-            "['aa']", "['A']", "{'a':'a'}", "{}", "1");
+        ignored("close", "one", "[]", "null", "'a'", "['b']", "['a',1]", "['a','a']", "[1]", "[null]", "[['a']]",
+            "['']", "['aa']", "['A']", "{'a':'a'}", "{}", "1");
         Session.withText("no params", "one").say("{'method':'close'}").documentsDue(1).ignoredDue(1);
     }
 
@@ -110,8 +110,8 @@ final class NotificationTest {
             "'change','params':['a',2,[0,0],0,0,'q']", "'close','params':[],'x':'a'", "'close','params':[[],'a']",
             "'open','params':['b'],'x':5,'y':'q'", "'open','params':['b',5],'y':'q'", "'cancel','params':[],'x':6"};
         for (String body : bodies) {
-            Session.withText("body " + body, "one").request(6, "length", "['a']").say("{'method':" + body + "}").ignoredDue(1)
-                .documentsDue(1).wholeDue(0, "a", 1, "one").waitingDue(1).responsesDue(1);
+            Session.withText("body " + body, "one").request(6, "length", "['a']").say("{'method':" + body + "}")
+                .ignoredDue(1).documentsDue(1).wholeDue(0, "a", 1, "one").waitingDue(1).responsesDue(1);
         }
     }
 
@@ -121,8 +121,10 @@ final class NotificationTest {
             Session s = Session.ready("version " + version).open("a", version, "one");
             s.notify("change", "['a'," + (version - 1) + ",'less']").wholeDue(0, "a", version, "one").ignoredDue(1);
             s.notify("change", "['a'," + version + ",'same']").wholeDue(0, "a", version, "one").ignoredDue(2);
-            s.notify("change", "['a'," + (version + 1) + ",'more']").wholeDue(0, "a", version + 1, "more").ignoredDue(2);
-            s.notify("change", "['a'," + (version + 1) + ",'same']").wholeDue(0, "a", version + 1, "more").ignoredDue(3);
+            s.notify("change", "['a'," + (version + 1) + ",'more']").wholeDue(0, "a", version + 1, "more")
+                .ignoredDue(2);
+            s.notify("change", "['a'," + (version + 1) + ",'same']").wholeDue(0, "a", version + 1, "more")
+                .ignoredDue(3);
         }
         Session.ready("from the least to the most").open("a", -999999, "").notify("change", "['a',999999,'x']")
             .wholeDue(0, "a", 999999, "x").notify("change", "['a',999999,'y']").ignoredDue(1);
@@ -142,7 +144,7 @@ final class NotificationTest {
             .wholeDue(0, "a", 1, "one").ignoredDue(0);
     }
 
-    /** "each after the other; an edit is a string, the whole new text, or an array [line, units, line, units, string]" */
+    /** "each after the other; an edit is a string, the whole new text, or an array [..]" */
     private static void eachAfterTheOther() {
         Session s = Session.withText("edits", "one");
         s.notify("change", "['a',2,'ab',[0,1,0,1,'-'],[0,9,0,9,'!']]").wholeDue(0, "a", 2, "a-b!");
@@ -153,25 +155,27 @@ final class NotificationTest {
 
     /** "change [name, version, edit, ..]" */
     private static void changeWithOtherParameters() {
-        ignored("change", "one", "[]", "null", "'a'", "1", "['a']", "['a','3']", "[3,'a']", "['b',3]", "['b',3,'q']", "['',3]",
-            "['aa',3]", "['a',null,'q']", "[null,3,'q']", "['a','q']", "['a','q',3]", "{'a':'a','b':3}", "{}", "[['a'],3]",
-            "['a',[3],'q']");
+        ignored("change", "one", "[]", "null", "'a'", "1", "['a']", "['a','3']", "[3,'a']", "['b',3]", "['b',3,'q']",
+            "['',3]", "['aa',3]", "['a',null,'q']", "[null,3,'q']", "['a','q']", "['a','q',3]", "{'a':'a','b':3}", "{}",
+            "[['a'],3]", "['a',[3],'q']");
         Session.withText("no params", "one").say("{'method':'change'}").wholeDue(0, "a", 1, "one").ignoredDue(1);
     }
 
     /** "If one of the edits is not so .. nothing of it is done." */
     private static void editsThatAreNotSo() {
-        ignored("change", "one", "['a',3,1]", "['a',3,null]", "['a',3,true]", "['a',3,[]]", "['a',3,{}]", "['a',3,[0,0,0,0]]",
-            "['a',3,[0,0,0,'q']]", "['a',3,[0,0,0,0,'q',1]]", "['a',3,[0,0,0,0,'q','r']]", "['a',3,[0,0,0,0,1]]",
-            "['a',3,[0,0,0,0,null]]", "['a',3,['0',0,0,0,'q']]", "['a',3,[0,'0',0,0,'q']]", "['a',3,[0,0,'0',0,'q']]",
-            "['a',3,[0,0,0,'0','q']]", "['a',3,[0,0,0,null,'q']]", "['a',3,[0,0,'q']]", "['a',3,['q',0,0,0,0]]",
-            "['a',3,[[0,0,0,0,'q']]]", "['a',3,['q']]", "['a',3,{'a':0,'b':0,'c':0,'d':0,'e':'q'}]");
+        ignored("change", "one", "['a',3,1]", "['a',3,null]", "['a',3,true]", "['a',3,[]]", "['a',3,{}]",
+            "['a',3,[0,0,0,0]]", "['a',3,[0,0,0,'q']]", "['a',3,[0,0,0,0,'q',1]]", "['a',3,[0,0,0,0,'q','r']]",
+            "['a',3,[0,0,0,0,1]]", "['a',3,[0,0,0,0,null]]", "['a',3,['0',0,0,0,'q']]", "['a',3,[0,'0',0,0,'q']]",
+            "['a',3,[0,0,'0',0,'q']]", "['a',3,[0,0,0,'0','q']]", "['a',3,[0,0,0,null,'q']]", "['a',3,[0,0,'q']]",
+            "['a',3,['q',0,0,0,0]]", "['a',3,[[0,0,0,0,'q']]]", "['a',3,['q']]",
+            "['a',3,{'a':0,'b':0,'c':0,'d':0,'e':'q'}]");
     }
 
     private static void nothingOfItIsDone() {
         String tooLong = "'" + "x".repeat(61) + "'";
-        ignored("change", "one", "['a',3,'q',null]", "['a',3,null,'q']", "['a',3,'q',[0,0,0,0],'r']", "['a',3,'q'," + tooLong + "]",
-            "['a',3," + tooLong + ",'q']", "['a',3,'q',[0,0,0,0," + tooLong + "],'']", "['a',3,[0,0,0,3,''],1]");
+        ignored("change", "one", "['a',3,'q',null]", "['a',3,null,'q']", "['a',3,'q',[0,0,0,0],'r']",
+            "['a',3,'q'," + tooLong + "]", "['a',3," + tooLong + ",'q']", "['a',3,'q',[0,0,0,0," + tooLong + "],'']",
+            "['a',3,[0,0,0,3,''],1]");
         Session.withText("a good one behind a bad one", "one").notify("change", "['a',2,'q',1]")
             .notify("change", "['a',2,[0,3,0,3,'!']]").wholeDue(0, "a", 2, "one!").ignoredDue(1);
     }
@@ -186,13 +190,15 @@ final class NotificationTest {
 
     /** "cancel [id]: the waiting request with that id .. is answered with error -32800" */
     private static void cancels() {
-        waits("cancel", 5, 6, 7).notify("cancel", "[6]").errorDue(6, -32800).waitingDue(2).requestDue(0, 5).requestDue(1, 7)
-            .requestDue(2, Session.OUTSIDE).ignoredDue(0).responsesDue(2).notify("cancel", "[7]").errorDue(7, -32800)
-            .notify("cancel", "[5]").errorDue(5, -32800).waitingDue(0).ignoredDue(0).responsesDue(4);
+        waits("cancel", 5, 6, 7).notify("cancel", "[6]").errorDue(6, -32800).waitingDue(2).requestDue(0, 5)
+            .requestDue(1, 7).requestDue(2, Session.OUTSIDE).ignoredDue(0).responsesDue(2).notify("cancel", "[7]")
+            .errorDue(7, -32800).notify("cancel", "[5]").errorDue(5, -32800).waitingDue(0).ignoredDue(0)
+            .responsesDue(4);
         waits("cancel 0 and below", 0, -5).notify("cancel", "[-5]").errorDue(-5, -32800).notify("cancel", "[0]")
             .errorDue(0, -32800).waitingDue(0).ignoredDue(0);
-        waits("a cancelled one makes room", 1, 2, 3, 4, 5, 6, 7, 8).notify("cancel", "[8]").request(9, "length", "['a']")
-            .waitingDue(8).requestDue(7, 9).request(10, "length", "['a']").errorDue(10, -32803);
+        waits("a cancelled one makes room", 1, 2, 3, 4, 5, 6, 7, 8).notify("cancel", "[8]")
+            .request(9, "length", "['a']").waitingDue(8).requestDue(7, 9).request(10, "length", "['a']")
+            .errorDue(10, -32803);
     }
 
     /** "(the first one)" */
@@ -204,18 +210,22 @@ final class NotificationTest {
 
     /** "ignored, if there is none" */
     private static void cancelWhatIsNotThere() {
-        waits("nothing waits").notify("cancel", "[5]").ignoredDue(1).responsesDue(1).notify("cancel", "[0]").ignoredDue(2);
+        waits("nothing waits").notify("cancel", "[5]").ignoredDue(1).responsesDue(1).notify("cancel", "[0]")
+            .ignoredDue(2);
         waits("another waits", 6).notify("cancel", "[5]").ignoredDue(1).notify("cancel", "[7]").ignoredDue(2)
             .notify("cancel", "[-6]").ignoredDue(3).waitingDue(1).responsesDue(1);
         waits("it was run", 5).runDue(0, 5).notify("cancel", "[5]").ignoredDue(1).responsesDue(2);
-        waits("it was cancelled", 5).notify("cancel", "[5]").ignoredDue(0).notify("cancel", "[5]").ignoredDue(1).responsesDue(2);
-        Session.ready("it was refused").request(5, "length", "['a']").notify("cancel", "[5]").ignoredDue(1).responsesDue(2);
+        waits("it was cancelled", 5).notify("cancel", "[5]").ignoredDue(0).notify("cancel", "[5]").ignoredDue(1)
+            .responsesDue(2);
+        Session.ready("it was refused").request(5, "length", "['a']").notify("cancel", "[5]").ignoredDue(1)
+            .responsesDue(2);
     }
 
     private static void cancelWithOtherParameters() {
-        for (String params : new String[] {"[]", "['6']", "6", "[6,6]", "[6,null]", "null", "[null]", "[[6]]", "{'id':6}", "{}",
-            "'6'"}) {
-            waits("cancel " + params, 6).notify("cancel", params).ignoredDue(1).waitingDue(1).requestDue(0, 6).responsesDue(1);
+        for (String params : new String[] {"[]", "['6']", "6", "[6,6]", "[6,null]", "null", "[null]", "[[6]]",
+            "{'id':6}", "{}", "'6'"}) {
+            waits("cancel " + params, 6).notify("cancel", params).ignoredDue(1).waitingDue(1).requestDue(0, 6)
+                .responsesDue(1);
         }
         waits("cancel without params", 6).say("{'method':'cancel'}").ignoredDue(1).waitingDue(1).responsesDue(1);
     }

@@ -27,7 +27,8 @@ final class PositionTest {
 
     /** "its end, if it has not so many lines (line 0 is the first one)" */
     private static void notSoManyLines() {
-        places("ab\\ncd", new int[][] {{0, 0, 0}, {1, 0, 3}, {1, 1, 4}, {2, 0, 5}, {2, 1, 5}, {2, -1, 5}, {3, 0, 5}, {99, 0, 5}});
+        places("ab\\ncd", new int[][] {{0, 0, 0}, {1, 0, 3}, {1, 1, 4}, {2, 0, 5}, {2, 1, 5}, {2, -1, 5}, {3, 0, 5},
+            {99, 0, 5}});
         places("ab\\ncd\\n", new int[][] {{1, 0, 3}, {1, 2, 5}, {2, 0, 6}, {2, 1, 6}, {3, 0, 6}, {3, -1, 6}});
         places("abc", new int[][] {{0, 0, 0}, {0, 2, 2}, {1, 0, 3}, {1, -1, 3}, {2, 0, 3}});
     }
@@ -39,32 +40,34 @@ final class PositionTest {
 
     /** "else, in the line, the last place .. that is not more than so many units behind its beginning" */
     private static void unitsWithinALine() {
-        places("abc\\nde\\n\\nf", new int[][] {{0, 0, 0}, {0, 1, 1}, {0, 2, 2}, {0, 3, 3}, {1, 0, 4}, {1, 1, 5}, {1, 2, 6},
-            {2, 0, 7}, {3, 0, 8}, {3, 1, 9}});
+        places("abc\\nde\\n\\nf", new int[][] {{0, 0, 0}, {0, 1, 1}, {0, 2, 2}, {0, 3, 3}, {1, 0, 4}, {1, 1, 5},
+            {1, 2, 6}, {2, 0, 7}, {3, 0, 8}, {3, 1, 9}});
     }
 
     /** "(at most its end)": before the character 10 that ends it. */
     private static void atMostTheEndOfTheLine() {
-        places("abc\\nde\\n\\nf", new int[][] {{0, 3, 3}, {0, 4, 3}, {0, 5, 3}, {0, 99, 3}, {1, 2, 6}, {1, 3, 6}, {1, 4, 6},
-            {2, 1, 7}, {2, 2, 7}, {3, 1, 9}, {3, 2, 9}, {3, 99, 9}});
+        places("abc\\nde\\n\\nf", new int[][] {{0, 3, 3}, {0, 4, 3}, {0, 5, 3}, {0, 99, 3}, {1, 2, 6}, {1, 3, 6},
+            {1, 4, 6}, {2, 1, 7}, {2, 2, 7}, {3, 1, 9}, {3, 2, 9}, {3, 99, 9}});
     }
 
     /** "(its beginning, if they are below 0)" */
     private static void unitsBelowZero() {
-        places("abc\\nde\\n\\nf", new int[][] {{0, -1, 0}, {0, -99, 0}, {1, -1, 4}, {1, -2, 4}, {2, -1, 7}, {3, -1, 8}});
+        places("abc\\nde\\n\\nf", new int[][] {{0, -1, 0}, {0, -99, 0}, {1, -1, 4}, {1, -2, 4}, {2, -1, 7},
+            {3, -1, 8}});
         places("~\\n~", new int[][] {{0, -1, 0}, {1, -1, 2}, {1, -2, 2}});
     }
 
     /** "Every character is one UNIT wide, but ~ is two." */
     private static void wideCharacters() {
         places("a~b", new int[][] {{0, 0, 0}, {0, 1, 1}, {0, 2, 1}, {0, 3, 2}, {0, 4, 3}, {0, 5, 3}});
-        places("~~\\n~c~", new int[][] {{0, 0, 0}, {0, 1, 0}, {0, 2, 1}, {0, 3, 1}, {0, 4, 2}, {0, 5, 2}, {1, 0, 3}, {1, 1, 3},
-            {1, 2, 4}, {1, 3, 5}, {1, 4, 5}, {1, 5, 6}, {1, 6, 6}});
+        places("~~\\n~c~", new int[][] {{0, 0, 0}, {0, 1, 0}, {0, 2, 1}, {0, 3, 1}, {0, 4, 2}, {0, 5, 2}, {1, 0, 3},
+            {1, 1, 3}, {1, 2, 4}, {1, 3, 5}, {1, 4, 5}, {1, 5, 6}, {1, 6, 6}});
         places(" }\\\"\\\\|", new int[][] {{0, 1, 1}, {0, 2, 2}, {0, 3, 3}, {0, 4, 4}, {0, 5, 5}, {0, 6, 5}});
         places("~".repeat(60), new int[][] {{0, 60, 30}, {0, 118, 59}, {0, 119, 59}, {0, 120, 60}, {0, 121, 60}});
         for (char c = 32; c <= 126; c++) {
             if (c != '"' && c != '\\') {
-                Session s = Session.ready("width of " + c).send("{\"method\":\"open\",\"params\":[\"a\",1,\"" + c + "b\"]}");
+                Session s = Session.ready("width of " + c)
+                    .send("{\"method\":\"open\",\"params\":[\"a\",1,\"" + c + "b\"]}");
                 s.placeDue(0, 0, 1, c == '~' ? 0 : 1).placeDue(0, 0, 2, c == '~' ? 1 : 2);
             }
         }
@@ -79,8 +82,9 @@ final class PositionTest {
     private static void farNumbers() {
         int most = Integer.MAX_VALUE;
         int least = Integer.MIN_VALUE;
-        places("a~\\nbc", new int[][] {{0, most, 2}, {1, most, 5}, {2, most, 5}, {most, 0, 5}, {most, most, 5}, {most, least, 5},
-            {0, least, 0}, {1, least, 3}, {least, 0, 0}, {least, most, 0}, {least, least, 0}, {-1, most, 0}});
+        places("a~\\nbc", new int[][] {{0, most, 2}, {1, most, 5}, {2, most, 5}, {most, 0, 5}, {most, most, 5},
+            {most, least, 5}, {0, least, 0}, {1, least, 3}, {least, 0, 0}, {least, most, 0}, {least, least, 0},
+            {-1, most, 0}});
     }
 
     /** "IndexOutOfBoundsException if there is no such document." */
@@ -102,8 +106,8 @@ final class PositionTest {
     /** "of at the character at that position" */
     private static void positionsOfAt() {
         Session s = Session.withText("at", "ab\\n~c");
-        int[][] due = {{-1, 5, 'a'}, {0, -1, 'a'}, {0, 0, 'a'}, {0, 1, 'b'}, {0, 2, 10}, {0, 3, 10}, {1, -1, '~'}, {1, 0, '~'},
-            {1, 1, '~'}, {1, 2, 'c'}};
+        int[][] due = {{-1, 5, 'a'}, {0, -1, 'a'}, {0, 0, 'a'}, {0, 1, 'b'}, {0, 2, 10}, {0, 3, 10}, {1, -1, '~'},
+            {1, 0, '~'}, {1, 1, '~'}, {1, 2, 'c'}};
         for (int[] row : due) {
             s.request(7, "at", "['a'," + row[0] + "," + row[1] + "]").runDue(0, 7).resultDue(7, row[2]);
         }

@@ -71,8 +71,8 @@ final class RequestTest {
     private static void anotherMethod() {
         Session s = Session.withText("another method", "x");
         int id = 1;
-        for (String method : new String[] {"open", "close", "change", "cancel", "exit", "x", "", "Length", "lengt", "lengths",
-            "inde", "indexx", "a", "att", "line", "liness"}) {
+        for (String method : new String[] {"open", "close", "change", "cancel", "exit", "x", "", "Length", "lengt",
+            "lengths", "inde", "indexx", "a", "att", "line", "liness"}) {
             s.request(id, method, "['a']").errorDue(id, -32601);
             id++;
         }
@@ -90,22 +90,23 @@ final class RequestTest {
     /** "Not these parameters ..: error -32602." */
     private static void notTheseParameters() {
         for (String method : new String[] {"length", "lines"}) {
-            refused(method, "[]", "null", "'a'", "1", "{}", "[1]", "[null]", "['a',1]", "['a','a']", "['a',null]", "{'a':'a'}",
-                "[['a']]", "['a',[]]");
+            refused(method, "[]", "null", "'a'", "1", "{}", "[1]", "[null]", "['a',1]", "['a','a']", "['a',null]",
+                "{'a':'a'}", "[['a']]", "['a',[]]");
         }
         refused("index", "[]", "null", "'a'", "['a']", "['a',1]", "['a',null]", "['a',['b']]", "[1,'b']", "[null,'b']",
             "['a','b','c']", "['a','b',1]", "{'a':'a','b':'b'}", "[['a','b']]");
-        refused("at", "[]", "null", "'a'", "['a']", "['a',0]", "['a',0,'0']", "['a','0',0]", "['a',0,null]", "['a',null,0]",
-            "[0,0,0]", "['a',0,0,0]", "['a',[0,0]]", "{'a':'a','b':0,'c':0}", "[0,0,'a']");
+        refused("at", "[]", "null", "'a'", "['a']", "['a',0]", "['a',0,'0']", "['a','0',0]", "['a',0,null]",
+            "['a',null,0]", "[0,0,0]", "['a',0,0,0]", "['a',[0,0]]", "{'a':'a','b':0,'c':0}", "[0,0,'a']");
     }
 
     /** What stands behind the array in the message is none of its parameters. */
     private static void parametersEndWhereTheirArrayEnds() {
-        String[] bodies = {"'length','params':[],'x':'a'", "'lines','params':[],'x':'a'", "'index','params':['a'],'x':'b'",
-            "'index','params':[],'x':'a','y':'b'", "'at','params':['a'],'x':0,'y':0", "'at','params':['a',0],'y':0",
-            "'at','params':['a',[0],0]"};
+        String[] bodies = {"'length','params':[],'x':'a'", "'lines','params':[],'x':'a'",
+            "'index','params':['a'],'x':'b'", "'index','params':[],'x':'a','y':'b'", "'at','params':['a'],'x':0,'y':0",
+            "'at','params':['a',0],'y':0", "'at','params':['a',[0],0]"};
         for (String body : bodies) {
-            Session.withText("body " + body, "bab").say("{'id':3,'method':" + body + "}").errorDue(3, -32602).waitingDue(0);
+            Session.withText("body " + body, "bab").say("{'id':3,'method':" + body + "}").errorDue(3, -32602)
+                .waitingDue(0);
         }
     }
 
@@ -115,8 +116,8 @@ final class RequestTest {
         asked("bab", "index", "['a','b']").resultDue(5, 0);
         asked("ab\\ncd", "index", "['a','\\n']").resultDue(5, 2);
         asked("ab\\\\", "index", "['a','\\\\']").resultDue(5, 2);
-        Session.withText("a quote", "ab\\\"").send("{\"id\":5,\"method\":\"index\",\"params\":[\"a\",\"\\\"\"]}").waitingDue(1)
-            .runDue(0, 5).resultDue(5, 2);
+        Session.withText("a quote", "ab\\\"").send("{\"id\":5,\"method\":\"index\",\"params\":[\"a\",\"\\\"\"]}")
+            .waitingDue(1).runDue(0, 5).resultDue(5, 2);
     }
 
     /** "or no such document: error -32602" */
@@ -126,8 +127,9 @@ final class RequestTest {
             Session.ready(METHODS[i] + " of none").request(1, METHODS[i], others).errorDue(1, -32602).waitingDue(0)
                 .open("b", 1, "").request(2, METHODS[i], others).errorDue(2, -32602).open("aa", 1, "")
                 .request(3, METHODS[i], others).errorDue(3, -32602).open("a", 1, "").request(4, METHODS[i], others)
-                .waitingDue(1).responsesDue(4).notify("close", "['a']").request(5, METHODS[i], others).errorDue(5, -32602)
-                .waitingDue(1).request(6, METHODS[i], others.replace("'a'", "''")).errorDue(6, -32602);
+                .waitingDue(1).responsesDue(4).notify("close", "['a']").request(5, METHODS[i], others)
+                .errorDue(5, -32602).waitingDue(1).request(6, METHODS[i], others.replace("'a'", "''"))
+                .errorDue(6, -32602);
         }
     }
 
@@ -158,8 +160,8 @@ final class RequestTest {
     private static void orderOfErrors() {
         eight("errors with eight waiting").request(9, "x", "['a']").errorDue(9, -32601).request(9, "length", "[]")
             .errorDue(9, -32602).request(9, "length", "['b']").errorDue(9, -32602).request(9, "length", "['a']")
-            .errorDue(9, -32803).request(9, "initialize", "[]").errorDue(9, -32600).waitingDue(8).request(9, "shutdown", "[]")
-            .resultDue(9, 0).stateDue(2).waitingDue(8);
+            .errorDue(9, -32803).request(9, "initialize", "[]").errorDue(9, -32600).waitingDue(8)
+            .request(9, "shutdown", "[]").resultDue(9, 0).stateDue(2).waitingDue(8);
         Session.ready("no such method, no parameters").request(1, "x", "null").errorDue(1, -32601);
     }
 
@@ -170,17 +172,19 @@ final class RequestTest {
             .request(4, "lines", "['a']").notify("change", "['a',2,'']").request(5, "length", "['a']")
             .notify("close", "['a']").open("a", 1, "bbbbbbb").request(6, "length", "['a']").waitingDue(6);
         s.runDue(0, 1).resultDue(1, 4).runDue(0, 2).resultDue(2, 1).runDue(0, 3).resultDue(3, 'c').runDue(0, 4)
-            .resultDue(4, 2).runDue(0, 5).resultDue(5, 0).runDue(0, 6).resultDue(6, 7).waitingDue(0).wholeDue(0, "a", 1, "bbbbbbb");
+            .resultDue(4, 2).runDue(0, 5).resultDue(5, 0).runDue(0, 6).resultDue(6, 7).waitingDue(0)
+            .wholeDue(0, "a", 1, "bbbbbbb");
         Session.ready("of its own document").open("a", 1, "x").open("b", 1, "yy").request(1, "length", "['b']")
-            .request(2, "length", "['a']").notify("close", "['a']").runDue(0, 1).resultDue(1, 2).runDue(0, 2).resultDue(2, 1);
+            .request(2, "length", "['a']").notify("close", "['a']").runDue(0, 1).resultDue(1, 2).runDue(0, 2)
+            .resultDue(2, 1);
     }
 
     /** "The id of the k-th waiting request (from 0, in the order in which they came)." */
     private static void inTheOrderInWhichTheyCame() {
         Session.withText("order", "x").request(30, "length", "['a']").request(-20, "lines", "['a']")
             .request(10, "at", "['a',0,0]").requestDue(0, 30).requestDue(1, -20).requestDue(2, 10).waitingDue(3)
-            .runDue(0, 30).requestDue(0, -20).requestDue(1, 10).requestDue(2, Session.OUTSIDE).request(5, "lines", "['a']")
-            .requestDue(2, 5).requestDue(3, Session.OUTSIDE).waitingDue(3);
+            .runDue(0, 30).requestDue(0, -20).requestDue(1, 10).requestDue(2, Session.OUTSIDE)
+            .request(5, "lines", "['a']").requestDue(2, 5).requestDue(3, Session.OUTSIDE).waitingDue(3);
     }
 
     /** "Runs the k-th waiting request ..: it waits no more and is answered. Its id." */
@@ -201,8 +205,8 @@ final class RequestTest {
     private static void runInAnyState() {
         String[] into = {"{'method':'x'}", "{'id':1,'method':'shutdown'}", "{'method':'exit'}"};
         for (int i = 0; i < into.length; i++) {
-            Session.withText("run in state " + (i + 1), "xyz").request(4, "length", "['a']").say(into[i]).stateDue(i + 1)
-                .runDue(0, 4).resultDue(4, 3).waitingDue(0).stateDue(i + 1).runDue(0, Session.OUTSIDE);
+            Session.withText("run in state " + (i + 1), "xyz").request(4, "length", "['a']").say(into[i])
+                .stateDue(i + 1).runDue(0, 4).resultDue(4, 3).waitingDue(0).stateDue(i + 1).runDue(0, Session.OUTSIDE);
         }
         Session.withText("run in state 4", "xyz").request(4, "length", "['a']").feedDue("x", 3).stateDue(4).runDue(0, 4)
             .resultDue(4, 3).waitingDue(0).stateDue(4).runDue(0, Session.OUTSIDE);

@@ -15,8 +15,8 @@ final class ResponseTest {
     /** "Responses are kept in the order in which they are given" */
     private static void inTheOrderInWhichTheyAreGiven() {
         Session.withText("order", "x").request(1, "length", "['a']").request(2, "x", "0").request(3, "lines", "['a']")
-            .runDue(1, 3).runDue(0, 1).responseDue(0, 0, 0).responseDue(1, 0, 2).responseDue(2, 0, 3).responseDue(3, 0, 1)
-            .responsesDue(4);
+            .runDue(1, 3).runDue(0, 1).responseDue(0, 0, 0).responseDue(1, 0, 2).responseDue(2, 0, 3)
+            .responseDue(3, 0, 1).responsesDue(4);
     }
 
     private static Session answered(String title, int responses) {
@@ -30,8 +30,8 @@ final class ResponseTest {
     /** "the first 60" */
     private static void firstSixty() {
         for (int given = 58; given <= 63; given++) {
-            Session s = answered(given + " responses", given).responsesDue(Math.min(given, 60)).responseDue(0, 3, -32700)
-                .responseDue(1, 3, -32600).responseDue(57, 3, -32600);
+            Session s = answered(given + " responses", given).responsesDue(Math.min(given, 60))
+                .responseDue(0, 3, -32700).responseDue(1, 3, -32600).responseDue(57, 3, -32600);
             for (int k = 58; k <= 63; k++) {
                 boolean kept = k < given && k < 60;
                 s.responseDue(k, 3, kept ? (Object) (k % 2 == 0 ? -32700 : -32600) : Session.OUTSIDE);
@@ -44,13 +44,16 @@ final class ResponseTest {
         Session s = answered("59 and more", 58).request(1, "initialize", "0").responsesDue(59).open("a", 1, "xyz")
             .request(2, "length", "['a']").request(3, "length", "['a']").request(4, "length", "['a']").runDue(1, 3)
             .responsesDue(60).resultDue(3, 3);
-        s.runDue(0, 2).waitingDue(1).responsesDue(60).resultDue(3, 3).notify("cancel", "[4]").waitingDue(0).ignoredDue(0)
-            .responsesDue(60).resultDue(3, 3);
+        s.runDue(0, 2).waitingDue(1).responsesDue(60).resultDue(3, 3).notify("cancel", "[4]").waitingDue(0)
+            .ignoredDue(0).responsesDue(60).resultDue(3, 3);
         s.request(9, "shutdown", "0").stateDue(2).responsesDue(60).resultDue(3, 3).responseDue(58, 0, 1)
             .responseDue(60, 0, Session.OUTSIDE).writtenDue(60, 0, Session.OUTSIDE);
     }
 
-    /** "its id (what = 0; 0 without), 1 if it has one, else 0 (1), 1 if it has a result, 0 if an error (2), that (3)" */
+    /**
+     * "its id (what = 0; 0 without), 1 if it has one, else 0 (1), 1 if it has a result, 0 if an error (2),
+     * that (3)"
+     */
     private static void partsOfAResponse() {
         Session s = Session.ready("parts").send("[").request(-4, "x", "0").send("7").open("a", 1, "xyz")
             .request(123456, "length", "['a']").runDue(0, 123456);

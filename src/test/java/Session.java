@@ -8,7 +8,6 @@ import java.util.function.Supplier;
 final class Session {
     static final Class<?> OUTSIDE = IndexOutOfBoundsException.class;
     static final Class<?> NO_SUCH = IllegalArgumentException.class;
-    static final int[] FAR = {Integer.MIN_VALUE, Integer.MAX_VALUE};
 
     private static final int MAX_CALLS = 512;
     private static int checks = 0;

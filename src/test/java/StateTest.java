@@ -72,7 +72,8 @@ final class StateTest {
         Session.ready("exit when ready").say(EXIT).stateDue(3).responsesDue(1).ignoredDue(0);
         down("exit when down").say(EXIT).stateDue(3).responsesDue(2).ignoredDue(0);
         Session.ready("exit with parameters").notify("exit", "[4]").stateDue(3).ignoredDue(0);
-        Session.ready("almost exit").notify("exi", "[]").notify("exits", "[]").notify("Exit", "[]").stateDue(1).ignoredDue(3);
+        Session.ready("almost exit").notify("exi", "[]").notify("exits", "[]").notify("Exit", "[]").stateDue(1)
+            .ignoredDue(3);
         new Session("exit as a request when new").request(1, "exit", "[]").stateDue(0).errorDue(1, -32002);
         Session.ready("exit as a request").request(1, "exit", "[]").stateDue(1).errorDue(1, -32601).codeDue(-1);
     }
@@ -96,8 +97,8 @@ final class StateTest {
         new Session("a body behind exit in one call").feedDue("17:{\"method\":\"exit\"", 0).feedDue("}1:1", 1)
             .stateDue(3).responsesDue(0);
         Session.withText("out with documents and waiting", "xyz").request(4, "length", "['a']").say(EXIT)
-            .notify("close", "['a']").notify("cancel", "[4]").notify("x", "0").waitingDue(1).documentsDue(1).ignoredDue(0)
-            .wholeDue(0, "a", 1, "xyz").runDue(0, 4).resultDue(4, 3).waitingDue(0);
+            .notify("close", "['a']").notify("cancel", "[4]").notify("x", "0").waitingDue(1).documentsDue(1)
+            .ignoredDue(0).wholeDue(0, "a", 1, "xyz").runDue(0, 4).resultDue(4, 3).waitingDue(0);
     }
 
     private static void closedStays() {
@@ -111,12 +112,13 @@ final class StateTest {
 
     /** "Other notifications count in READY alone, and are passed over otherwise." */
     private static void otherNotificationsWhenNew() {
-        Session s = new Session("notifications when new").open("a", 1, "").notify("close", "['a']").notify("cancel", "[5]");
+        Session s = new Session("notifications when new").open("a", 1, "").notify("close", "['a']")
+            .notify("cancel", "[5]");
         for (String method : NOTIFICATIONS) {
             s.notify(method, "['a']");
         }
-        s.documentsDue(0).ignoredDue(0).stateDue(0).responsesDue(0).codeDue(-1).request(1, "initialize", "0").documentsDue(0)
-            .ignoredDue(0);
+        s.documentsDue(0).ignoredDue(0).stateDue(0).responsesDue(0).codeDue(-1).request(1, "initialize", "0")
+            .documentsDue(0).ignoredDue(0);
     }
 
     private static void otherNotificationsWhenReady() {
@@ -133,7 +135,7 @@ final class StateTest {
         for (String method : NOTIFICATIONS) {
             s.notify(method, "['a']");
         }
-        s.ignoredDue(0).documentsDue(1).waitingDue(1).responsesDue(2).stateDue(2).wholeDue(0, "a", 1, "xyz").runDue(0, 1)
-            .resultDue(1, 3);
+        s.ignoredDue(0).documentsDue(1).waitingDue(1).responsesDue(2).stateDue(2).wholeDue(0, "a", 1, "xyz")
+            .runDue(0, 1).resultDue(1, 3);
     }
 }

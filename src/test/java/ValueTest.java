@@ -51,17 +51,19 @@ final class ValueTest {
     /** "A BODY is one VALUE" */
     private static void oneValue() {
         good("1", "[]", "\"\"");
-        bad(" ", "\n", "  \n ", "1 2", "1,2", "[][]", "{}{}", "true false", "\"a\"\"b\"", "1,", ",1", "[1]]", "{\"a\":1}}",
-            "{\"a\":1},", ":", ",", "x");
+        bad(" ", "\n", "  \n ", "1 2", "1,2", "[][]", "{}{}", "true false", "\"a\"\"b\"", "1,", ",1", "[1]]",
+            "{\"a\":1}}", "{\"a\":1},", ":", ",", "x");
     }
 
     /** The longest body is where a reader could look behind its row. */
     private static void brokenOffAtTwoHundred() {
-        for (String end : new String[] {"", "-", "[", "{", "[1", "[1,", "[]]", "t", "tru", "fals", "nul", "\"", "\"a", "\"\\",
-            "\"\\\"", "{\"", "{\"a", "{\"a\"", "{\"a\":", "{\"a\":1", "{\"a\":1,", "{\"a\\", "1234567", "[[[[[[["}) {
+        for (String end : new String[] {"", "-", "[", "{", "[1", "[1,", "[]]", "t", "tru", "fals", "nul", "\"", "\"a",
+            "\"\\", "\"\\\"", "{\"", "{\"a", "{\"a\"", "{\"a\":", "{\"a\":1", "{\"a\":1,", "{\"a\\", "1234567",
+            "[[[[[[["}) {
             bad(" ".repeat(200 - end.length()) + end, end + " ".repeat(200 - end.length()));
         }
-        for (String end : new String[] {"1", "-1", "123456", "true", "false", "null", "\"a\"", "[]", "{}", "[1]", "{\"a\":1}"}) {
+        for (String end : new String[] {"1", "-1", "123456", "true", "false", "null", "\"a\"", "[]", "{}", "[1]",
+            "{\"a\":1}"}) {
             good(" ".repeat(200 - end.length()) + end, end + " ".repeat(200 - end.length()));
         }
     }
@@ -78,8 +80,8 @@ final class ValueTest {
 
     /** "with blanks and characters 10 before and behind every value and every one of , : [ ] { }" */
     private static void blanksAndLineEnds() {
-        String[] pieces = {"{", "\"a\"", ":", "[", "1", ",", "\"b\"", ",", "[", "]", ",", "{", "}", ",", "true", "]", ",",
-            "\"c\"", ":", "null", "}"};
+        String[] pieces = {"{", "\"a\"", ":", "[", "1", ",", "\"b\"", ",", "[", "]", ",", "{", "}", ",", "true", "]",
+            ",", "\"c\"", ":", "null", "}"};
         for (int gap = 0; gap <= pieces.length; gap++) {
             StringBuilder before = new StringBuilder();
             StringBuilder behind = new StringBuilder();
@@ -108,8 +110,8 @@ final class ValueTest {
             for (int cut = 1; cut < word.length(); cut++) {
                 bad(word.substring(0, cut), word.substring(cut), "[" + word.substring(0, cut) + "]");
             }
-            bad(word + "e", word + word, word + "1", "1" + word, word.toUpperCase(), word.replace('e', 'E').replace('l', 'L'),
-                "[" + word + "x]");
+            bad(word + "e", word + word, word + "1", "1" + word, word.toUpperCase(), word.replace('e', 'E')
+                .replace('l', 'L'), "[" + word + "x]");
         }
         bad("truefalse", "undefined", "True", "nil", "fa1se");
     }
@@ -135,7 +137,8 @@ final class ValueTest {
     }
 
     private static void whatANumberIs() {
-        int[] ids = {0, 1, 9, 10, 11, 90, 99, 100, 101, 999, 1000, 9999, 10000, 54321, 99999, 100000, 123456, 987654, 999999};
+        int[] ids = {0, 1, 9, 10, 11, 90, 99, 100, 101, 999, 1000, 9999, 10000, 54321, 99999, 100000, 123456, 987654,
+            999999};
         for (int id : ids) {
             new Session("id " + id).request(id, "x", "0").errorDue(id, -32002);
             if (id != 0) {
@@ -192,8 +195,8 @@ final class ValueTest {
     /** ".. \")": the closing one must be there, and behind it nothing of the string. */
     private static void endOfAString() {
         good("\"\"", "\"a\"");
-        bad("\"", "\"a", "a\"", "\"\\\"", "\"\\", "\"a\"b", "'a'", "\"\"\"", "[\"a]", "[\"]", "{\"a:1}", "\"\t", "\"\\t",
-            "[\"\t]", "[\"\\t]");
+        bad("\"", "\"a", "a\"", "\"\\\"", "\"\\", "\"a\"b", "'a'", "\"\"\"", "[\"a]", "[\"]", "{\"a:1}", "\"\t",
+            "\"\\t", "[\"\t]", "[\"\\t]");
         String longest = "\"" + "x".repeat(198) + "\"";
         good(longest, "\"" + "\\n".repeat(99) + "\"");
         bad("\"" + "x".repeat(199), "\"" + "\\n".repeat(98) + "\\\"");
@@ -204,8 +207,8 @@ final class ValueTest {
     /** "an ARRAY [ values with , between ]" */
     private static void arrays() {
         good("[1]", "[1,2]", "[\"a\",true,[],{}]", "[[1],[2]]");
-        bad("[", "]", "[1", "[1,", "[1,]", "[,1]", "[,]", "[1,,2]", "[1 2]", "[[1]", "[1}", "[1:2]", "[1;2]", "[\"a\":1]",
-            "[[]", "[]]", "[1)", "(1]", "[}");
+        bad("[", "]", "[1", "[1,", "[1,]", "[,1]", "[,]", "[1,,2]", "[1 2]", "[[1]", "[1}", "[1:2]", "[1;2]",
+            "[\"a\":1]", "[[]", "[]]", "[1)", "(1]", "[}");
     }
 
     /** "an OBJECT { members with , between }; a member is a string (its NAME), a colon and a value" */
@@ -213,10 +216,10 @@ final class ValueTest {
         good("{\"a\":1}", "{\"a\":1,\"b\":[2]}", "{\"\":0}", "{\"a\":1,\"a\":2}", "{\"a\":{\"a\":{}}}",
             "{\"\\n\\\"\\\\\":1}", "{\"a\":\"b\"}");
         bad("{", "}", "{]", "{\"a\"}", "{\"a\":}", "{\"a\":1", "{\"a\":1,}", "{,}", "{,\"a\":1}", "{\"a\":1,,\"b\":2}",
-            "{\"a\" 1}", "{\"a\":1 \"b\":2}", "{\"a\":1]", "{:1}", "{\"a\"::1}", "{\"a\",1}", "{\"a\":1:2}", "{\"a\":1 2}",
-            "{\"a\"", "{\"a\":", "{\"", "{\"a\":1,\"b\"}", "{\"a\":1;\"b\":2}", "{\"a\"=1}");
-        bad("{a:1}", "{1:1}", "{null:1}", "{true:1}", "{[]:1}", "{{}:1}", "{1}", "{[]}", "{{}}", "{true}", "{\"a\":1,2}",
-            "{\"a\":1,{}}", "{-1:1}", "{a\":1}", "{\":1}", "{\"a\":1,b\":2}", "{a\"\":1}");
+            "{\"a\" 1}", "{\"a\":1 \"b\":2}", "{\"a\":1]", "{:1}", "{\"a\"::1}", "{\"a\",1}", "{\"a\":1:2}",
+            "{\"a\":1 2}", "{\"a\"", "{\"a\":", "{\"", "{\"a\":1,\"b\"}", "{\"a\":1;\"b\":2}", "{\"a\"=1}");
+        bad("{a:1}", "{1:1}", "{null:1}", "{true:1}", "{[]:1}", "{{}:1}", "{1}", "{[]}", "{{}}", "{true}",
+            "{\"a\":1,2}", "{\"a\":1,{}}", "{-1:1}", "{a\":1}", "{\":1}", "{\"a\":1,b\":2}", "{a\"\":1}");
     }
 
     /** "Arrays and objects may be empty" */
@@ -235,7 +238,8 @@ final class ValueTest {
             goodOrBad(depth <= 5, "[{\"a\":".repeat(depth / 2) + "[[]]" + "}]".repeat(depth / 2));
         }
         good("[{\"a\":[{\"a\":[{}]}]}]", "[[[[[[]]]]],[[[[[]]]]],1]", "[[[[[[],[]],[]]]]]", "[[[[[[\"a\",1,null]]]]]]");
-        bad("[[[[[[{}]]]]]]", "[{\"a\":[{\"a\":[{\"a\":[]}]}]}]", "[[[[[[1,[]]]]]]]", "[1,[[[[[[]]]]]]]", "[".repeat(200));
+        bad("[[[[[[{}]]]]]]", "[{\"a\":[{\"a\":[{\"a\":[]}]}]}]", "[[[[[[1,[]]]]]]]", "[1,[[[[[[]]]]]]]",
+            "[".repeat(200));
     }
 
     /** "a body has at most 40 values (those in arrays and objects counted, names not)" */
@@ -274,11 +278,13 @@ final class ValueTest {
 
     private static void namesInFull() {
         new Session("names that only begin so").say("{'i':1,'idd':2,'id ':3,'ID':4,'':5,'method':'x'}").responsesDue(0);
-        new Session("no method in full").say("{'id':1,'metho':'initialize','methods':'initialize','Method':'initialize'}")
-            .errorDue(1, -32600).stateDue(0);
+        new Session("no method in full")
+            .say("{'id':1,'metho':'initialize','methods':'initialize','Method':'initialize'}").errorDue(1, -32600)
+            .stateDue(0);
         Session.withText("no params in full", "xy").say("{'id':1,'method':'length','param':['a'],'paramss':['a']}")
             .errorDue(1, -32602);
         new Session("members of members").say("{'a':{'id':5,'method':'initialize'},'id':7}").errorDue(7, -32600);
-        new Session("members behind members").say("{'a':{'id':5},'b':[{'id':6}],'id':7,'method':'x'}").errorDue(7, -32002);
+        new Session("members behind members").say("{'a':{'id':5},'b':[{'id':6}],'id':7,'method':'x'}")
+            .errorDue(7, -32002);
     }
 }
