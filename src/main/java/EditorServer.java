@@ -36,7 +36,7 @@ public final class EditorServer {
     private int phase;
     private int exitCode;
     private int bodies;
-    private int passedBy;
+    private int ignoredCount;
 
     public EditorServer() {
         frame = new Frame();
@@ -128,7 +128,7 @@ public final class EditorServer {
     }
 
     public int ignored() {
-        return passedBy;
+        return ignoredCount;
     }
 
     public int documents() {
@@ -266,7 +266,7 @@ public final class EditorServer {
             exitCode = phase == DOWN ? 0 : 1;
             phase = OUT;
         } else if (phase == READY && !follow(method)) {
-            passedBy++;
+            ignoredCount++;
         }
     }
 

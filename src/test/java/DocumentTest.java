@@ -19,7 +19,7 @@ final class DocumentTest {
         Session.end();
     }
 
-    /** "DOCUMENTS, at most 3" */
+    /** "DOCUMENTS, at most 3"; "How many documents are open." */
     private static void atMostThree() {
         Session s = Session.ready("at most three").documentsDue(0).open("a", 1, "").documentsDue(1).open("b", 1, "")
             .documentsDue(2).open("c", 1, "").documentsDue(3).ignoredDue(0).open("d", 1, "").documentsDue(3)

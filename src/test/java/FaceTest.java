@@ -8,10 +8,17 @@ import java.util.TreeSet;
 
 /** The public face is the document's and no more; and no private method bears a public one's name. */
 final class FaceTest {
+    private static final String NO_INDEX = " throws java.lang.IndexOutOfBoundsException";
+    private static final String NO_INDEX_OR_WHAT = NO_INDEX + ",java.lang.IllegalArgumentException";
     private static final Set<String> FACE = new TreeSet<>(Arrays.asList(
-        "int feed[int]", "int state[]", "int code[]", "int waiting[]", "int request[int]", "int run[int]",
-        "int responses[]", "int response[int, int]", "char written[int, int]", "int ignored[]", "int documents[]",
-        "int document[int, int]", "char text[int, int]", "char name[int, int]", "int place[int, int, int]"));
+        "public int EditorServer.feed(int)", "public int EditorServer.state()", "public int EditorServer.code()",
+        "public int EditorServer.waiting()", "public int EditorServer.request(int)" + NO_INDEX,
+        "public int EditorServer.run(int)" + NO_INDEX, "public int EditorServer.responses()",
+        "public int EditorServer.response(int,int)" + NO_INDEX_OR_WHAT,
+        "public char EditorServer.written(int,int)" + NO_INDEX, "public int EditorServer.ignored()",
+        "public int EditorServer.documents()", "public int EditorServer.document(int,int)" + NO_INDEX_OR_WHAT,
+        "public char EditorServer.text(int,int)" + NO_INDEX, "public char EditorServer.name(int,int)" + NO_INDEX,
+        "public int EditorServer.place(int,int,int)" + NO_INDEX));
 
     public static void main(String[] args) {
         Class<?> program = EditorServer.class;
@@ -21,9 +28,8 @@ final class FaceTest {
         Set<String> names = new TreeSet<>();
         for (Method method : program.getDeclaredMethods()) {
             if (!Modifier.isPrivate(method.getModifiers())) {
-                open.add(method.getReturnType() + " " + method.getName() + Arrays.toString(method.getParameterTypes()));
+                open.add(method.toString());
                 names.add(method.getName());
-                s.due(method + " is", () -> method.getModifiers(), Modifier.PUBLIC);
             }
         }
         s.due("methods", () -> open, FACE);

@@ -45,6 +45,7 @@ final class FrameTest {
         }
     }
 
+    /** "INPUT is a row of characters 1 .. 127, four at a time." */
     private static void charactersThatAreNoneWithinAFrame() {
         new Session("none in header and body").feedDue("\u00800\0\u00ff0\0\0\u00804\u00c8\0:\0t\u00ffr\u0080u\0", 0)
             .feedDue("\u00ff\u00ff\0e", 1).errorDue(null, -32600).stateDue(0);

@@ -95,6 +95,7 @@ final class MessageTest {
             .errorDue(1, -32602).say("{'method':'close'}").documentsDue(1).ignoredDue(2);
     }
 
+    /** "A MESSAGE is a body that is an object. Its METHOD is the member method, a string" */
     private static void otherMembers() {
         new Session("any order, other members").say("{'x':[1],'params':0,'method':'initialize','y':{},'id':0}")
             .resultDue(0, 0).stateDue(1);

@@ -39,6 +39,7 @@ final class NotificationTest {
         }
     }
 
+    /** "How many notifications were ignored." */
     private static void countsFromZero() {
         Session s = Session.ready("counts").ignoredDue(0);
         for (int i = 1; i <= 20; i++) {
@@ -47,7 +48,7 @@ final class NotificationTest {
         s.request(1, "x", "0").send("[").ignoredDue(20);
     }
 
-    /** "open [name, version, text]" */
+    /** "Notifications in READY, with parameters as said; otherwise ..": "open [name, version, text]" */
     private static void openWithOtherParameters() {
         ignored("open", "one", "[]", "null", "{}", "'b'", "1", "true", "['b']", "['b',1]", "['b',1,'',1]",
             "['b',1,'','']", "['b','1','']", "[1,1,'']", "['b',1,1]", "['b',1,null]", "['b',null,'']", "[null,1,'']",
@@ -76,7 +77,7 @@ final class NotificationTest {
             .open("c", 2, "").ignoredDue(2).wholeDue(2, "c", 1, "z");
     }
 
-    /** "or name or text is not as said" */
+    /** "or name or text is not as said"; "and where it can't be done" */
     private static void openDoesNothingWhereItCant() {
         String tooLong = "x".repeat(61);
         Session.ready("a good name, a bad text").open("ab", 7, tooLong).documentsDue(0).ignoredDue(1)

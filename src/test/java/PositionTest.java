@@ -17,7 +17,7 @@ final class PositionTest {
         Session.end();
     }
 
-    /** Rows of line, units and the place that is due. */
+    /** "A POSITION is a line and so many units, numbers; it means a place in the text": rows of these three. */
     private static void places(String text, int[][] due) {
         Session s = Session.withText("places in " + text, text);
         for (int[] row : due) {
@@ -97,6 +97,7 @@ final class PositionTest {
         s.notify("close", "['a']").placeDue(0, 1, 0, 0).placeDue(1, 0, 0, Session.OUTSIDE);
     }
 
+    /** "The place in the text of document d that a position means." */
     private static void eachDocumentItsOwn() {
         Session.ready("three texts").open("a", 1, "~~").open("b", 1, "xyz").open("c", 1, "\\nq").placeDue(0, 0, 2, 1)
             .placeDue(1, 0, 2, 2).placeDue(2, 0, 2, 0).placeDue(2, 1, 2, 2).notify("change", "['b',2,'~']")

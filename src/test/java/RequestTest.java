@@ -25,7 +25,11 @@ final class RequestTest {
         Session.end();
     }
 
-    /** Rows of what is asked: it waits without an answer, and is answered when it is run. */
+    /**
+     * "Requests in READY: length [name], .. at [name, line, units], lines [name]."
+     *
+     * What is asked waits without an answer, and is answered when it is run.
+     */
     private static Session asked(String text, String method, String params) {
         return Session.withText(method + " " + params + " of " + text, text).waitingDue(0).request(5, method, params)
             .waitingDue(1).responsesDue(1).requestDue(0, 5).runDue(0, 5).waitingDue(0).responsesDue(2);
@@ -133,6 +137,7 @@ final class RequestTest {
         }
     }
 
+    /** "How many requests wait." */
     private static Session eight(String title) {
         Session s = Session.withText(title, "x");
         for (int id = 1; id <= 8; id++) {

@@ -27,7 +27,7 @@ final class ResponseTest {
         return s;
     }
 
-    /** "the first 60" */
+    /** "the first 60"; "How many responses are kept." */
     private static void firstSixty() {
         for (int given = 58; given <= 63; given++) {
             Session s = answered(given + " responses", given).responsesDue(Math.min(given, 60))
@@ -51,6 +51,8 @@ final class ResponseTest {
     }
 
     /**
+     * "A response has an id or none, and a RESULT or an ERROR, a number."
+     *
      * "its id (what = 0; 0 without), 1 if it has one, else 0 (1), 1 if it has a result, 0 if an error (2),
      * that (3)"
      */
@@ -65,7 +67,7 @@ final class ResponseTest {
         }
     }
 
-    /** "IndexOutOfBoundsException if there is none" */
+    /** "IndexOutOfBoundsException if there is none"; "IndexOutOfBoundsException if there is no such response." */
     private static void noSuchResponse() {
         new Session("none").responseDue(0, 0, Session.OUTSIDE).writtenDue(0, 0, Session.OUTSIDE);
         Session s = Session.ready("two").send("[").responseDue(1, 0, 0).writtenDue(1, 0, '2');
@@ -87,7 +89,11 @@ final class ResponseTest {
         s.responsesDue(1);
     }
 
-    /** "WRITTEN they are a frame, the body {"id":i,"result":r} or {"id":i,"error":e}, i being null without id" */
+    /**
+     * "WRITTEN they are a frame, the body {"id":i,"result":r} or {"id":i,"error":e}, i being null without id"
+     *
+     * "Character i of response k, written"
+     */
     private static void written() {
         Session s = Session.ready("written").send("[").request(-999999, "x", "0").open("a", 1, "x".repeat(60))
             .request(123456, "length", "['a']").runDue(0, 123456).send("{\"id\":0}");

@@ -4,6 +4,7 @@ final class StateTest {
     private static final String[] NOTIFICATIONS = {"initialize", "shutdown", "length", "x", ""};
 
     public static void main(String[] args) {
+        numbersOfTheStates();
         initializeWhenNew();
         anotherRequestWhenNew();
         initializeWhenReady();
@@ -21,6 +22,15 @@ final class StateTest {
 
     private static Session down(String title) {
         return Session.ready(title).say("{'id':1,'method':'shutdown'}");
+    }
+
+    /** "THE STATE: 0 NEW, 1 READY, 2 DOWN, 3 OUT, 4 CLOSED" */
+    private static void numbersOfTheStates() {
+        new Session("states").stateDue(0).request(1, "initialize", "0").stateDue(1).request(2, "shutdown", "0")
+            .stateDue(2).say(EXIT).stateDue(3);
+        new Session("closed when new").stateDue(0).feedDue("x", 0).stateDue(4);
+        Session.ready("closed when ready").stateDue(1).feedDue("x", 1).stateDue(4);
+        down("closed when down").stateDue(2).feedDue("x", 2).stateDue(4);
     }
 
     /** "NEW: the request initialize makes it READY, result 0" */
